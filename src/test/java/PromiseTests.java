@@ -303,6 +303,14 @@ public final class PromiseTests {
         WineFutures less = estate(1, 10, 0);
         tasteOften(less, 0, 46);
         t.due("1790 loses", less.pass(1), 34);
+        WineFutures close = estate(1, 1, 0);
+        tasteOften(close, 0, 25);
+        t.due("2000 loses", close.pass(1), 2);
+        t.due("1998 loses", close.pass(1), 1);
+        tasteOften(close, 0, 19);
+        close.pass(7);
+        t.due("1800 loses with the rate 1", close.pass(1), 1);
+        t.due("1799 loses", close.pass(1), 2);
     }
 
     private static void monthLimit(Checks t) {
@@ -627,6 +635,11 @@ public final class PromiseTests {
         WineFutures x = estate(12, 0, 1);
         x.sell(0, 0, 1, 1);
         t.due("mean 1", x.holding(0, 0, 3), 0x3f800000);
+        WineFutures y = estate(12, 0, 1);
+        y.sell(0, 0, 3, 2);
+        t.due("mean 2", y.holding(0, 0, 3), 0x40000000);
+        y.sell(0, 0, 1, 999);
+        t.due("mean 251.25", y.holding(0, 0, 3), 0x437b4000);
         for (int held = 2; held <= 100; held++) {
             x.sell(0, 0, 1, 0);
             t.due("mean 1 / " + held, x.holding(0, 0, 3), Float.floatToIntBits(1f / (float) held));
@@ -688,6 +701,22 @@ public final class PromiseTests {
         x.undo();
         t.dueRow("undone", entryRow(x, 0), 1, 0, 0, 1, 11, 1);
         t.dueRow("undone, the oldest one", entryRow(x, 11), 3, 0, 0, 4, NOT_FOUND, NOT_FOUND);
+        entriesOfAnotherLot(t);
+    }
+
+    private static void entriesOfAnotherLot(Checks t) {
+        WineFutures x = estate(1, 0, 2);
+        x.lot(1, 50);
+        x.sell(1, 0, 25, 4);
+        t.dueRow("sale of lot 1", entryRow(x, 0), 0, 1, 0, 25, 4, NOT_FOUND);
+        x.trade(1, 0, 1, 5, 6);
+        t.dueRow("trade of lot 1", entryRow(x, 0), 1, 1, 1, 5, 6, 0);
+        x.pass(2);
+        t.due("cut", x.bottle(1), 4);
+        t.dueRow("cut of buyer 1", entryRow(x, 0), 2, 1, 1, 1, 6, NOT_FOUND);
+        t.dueRow("cut of buyer 0", entryRow(x, 1), 2, 1, 0, 3, 12, NOT_FOUND);
+        x.redeem(1, 1, 2);
+        t.dueRow("delivery of lot 1", entryRow(x, 0), 3, 1, 1, 2, NOT_FOUND, NOT_FOUND);
     }
 
     private static void cases(Checks t) {
@@ -901,14 +930,10 @@ public final class PromiseTests {
     private static void everyChange(Checks t) {
         WineFutures x = estate(2, 50, 2);
         Call[] changes = {
-            () -> x.lot(1, 1), () -> x.buyer(), () -> x.sell(0, 0, 20, 3), () -> x.taste(0, 44), () -> x.pass(2),
+            () -> x.lot(1, 1), () -> x.buyer(), () -> x.sell(0, 0, 50, 3), () -> x.taste(0, 44), () -> x.pass(2),
             () -> x.top(0), () -> x.trade(0, 0, 1, 2, 9), () -> x.set(0, 55), () -> x.bottle(0),
             () -> x.redeem(0, 1, 1), () -> x.play(),
         };
-        x.undo();
-        x.undo();
-        x.buyer();
-        x.buyer();
         for (int i = 0; i < changes.length; i++) {
             String before = Checks.snapshot(x);
             changes[i].answer();
