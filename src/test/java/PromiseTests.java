@@ -1,12 +1,5 @@
 /** For each promise of the document: ordinary inputs, the edges that it names, and wrong inputs. */
-public final class PromiseTests {
-    private static final int INVALID = -2000000001;
-    private static final int NOT_POSSIBLE = -2000000002;
-    private static final int LIMIT = -2000000003;
-    private static final int NOT_FOUND = -2000000004;
-    private static final int LEAST = Integer.MIN_VALUE;
-    private static final int MOST = Integer.MAX_VALUE;
-
+public final class PromiseTests extends EstateTests {
     private static int passed = 0;
     private static int failed = 0;
 
@@ -56,55 +49,6 @@ public final class PromiseTests {
             case 26: fault(t); break;
             default: play(t); break;
         }
-    }
-
-    /** An estate with a lot of so many full barrels that all of its cases can be sold, and with buyers. */
-    private static WineFutures estate(int barrels, int rate, int buyers) {
-        WineFutures x = new WineFutures();
-        x.set(0, 0);
-        x.set(1, 0);
-        x.lot(barrels, rate);
-        for (int i = 0; i < buyers; i++) {
-            x.buyer();
-        }
-        return x;
-    }
-
-    private static int[] barrels(WineFutures x, int lot) {
-        int[] row = new int[Math.max(0, x.lotOf(lot, 0))];
-        for (int i = 0; i < row.length; i++) {
-            row[i] = x.barrel(lot, i);
-        }
-        return row;
-    }
-
-    private static int[] entryRow(WineFutures x, int index) {
-        int[] row = new int[6];
-        for (int what = 0; what < row.length; what++) {
-            row[what] = x.entry(index, what);
-        }
-        return row;
-    }
-
-    private static void tasteOften(WineFutures x, int lot, int times) {
-        for (int i = 0; i < times; i++) {
-            x.taste(lot, 50);
-        }
-    }
-
-    /** The error is due, and nothing may have been changed, the history included. */
-    private interface Call {
-        int answer();
-    }
-
-    private static void refused(Checks t, WineFutures x, String name, int want, Call call) {
-        String before = Checks.snapshot(x);
-        int states = x.count(10);
-        int length = x.count(11);
-        t.due(name, call.answer(), want);
-        t.that(name + " changes nothing", before.equals(Checks.snapshot(x)));
-        t.due(name + ": states", x.count(10), states);
-        t.due(name + ": length", x.count(11), length);
     }
 
     private static void newObject(Checks t) {
