@@ -1,11 +1,11 @@
 /** The boundaries that promises 1 to 27 name: of each argument, and of what each call returns. */
 public final class CallBoundaries extends EstateTests {
     private interface Ask {
-        int answer(WineFutures x, int value);
+        int answer(LongEstate x, int value);
     }
 
     private interface Made {
-        WineFutures estate();
+        LongEstate estate();
     }
 
     private interface Number {
@@ -14,6 +14,7 @@ public final class CallBoundaries extends EstateTests {
 
     public static void main(String[] args) {
         Sentences s = new Sentences();
+        s.holds("An object is used for at most 512 calls after it has been made", CallBoundaries::calls512);
         s.holds("Creates an estate without lots and buyers.", CallBoundaries::newObject);
         argumentsOfChanges(s);
         argumentsOfQuestions(s);
@@ -30,11 +31,11 @@ public final class CallBoundaries extends EstateTests {
         s.holds("- `cases`: 1 to 999", CallBoundaries::cases1To999);
         s.holds("- `price`: 0 to 999", CallBoundaries::price0To999);
         s.holds("- `from`: number of the buyer who has them", t -> numbers(t, 6, v -> {
-            WineFutures x = ofSix();
+            LongEstate x = ofSix();
             return v == 0 ? x.trade(0, v, 1, 1, 1) : x.trade(0, v, 0, 1, 1);
         }));
         s.holds("- `to`: number of another buyer", t -> numbers(t, 6, v -> {
-            WineFutures x = ofSix();
+            LongEstate x = ofSix();
             return v == 0 ? x.trade(0, 1, v, 1, 1) : x.trade(0, 0, v, 1, 1);
         }));
         s.holds("- `what`: 0 or 1", t -> range(t, 0, 1, () -> estate(1, 0, 0), (x, v) -> x.set(v, 5)));
@@ -58,7 +59,7 @@ public final class CallBoundaries extends EstateTests {
         s.holds("- `what`: 0: the buyer, of several the lowest; 1: how many",
             t -> range(t, 0, 1, CallBoundaries::withLoser, (x, v) -> x.loser(0, v)));
         s.holds("- `what`: 0: lots; 1: buyers; 2: the month;", CallBoundaries::countWhats);
-        s.holds("- `character`: 32 to 126", t -> range(t, 32, 126, WineFutures::new, (x, v) -> x.type(v)));
+        s.holds("- `character`: 32 to 126", t -> range(t, 32, 126, LongEstate::new, (x, v) -> x.type(v)));
         s.holds("- `what`: 0: its position; 1: its reason; 2: its cause", CallBoundaries::faultWhats);
     }
 
@@ -128,7 +129,7 @@ public final class CallBoundaries extends EstateTests {
         }
         int[] bad = {least - 1, most + 1, LEAST, MOST};
         for (int value : bad) {
-            WineFutures x = made.estate();
+            LongEstate x = made.estate();
             refused(t, x, value + " is refused", INVALID, () -> ask.answer(x, value));
         }
     }
@@ -145,8 +146,8 @@ public final class CallBoundaries extends EstateTests {
     }
 
     /** Six lots and six buyers; each buyer has bought 4 of lot 0 at 3, and lot 5 is bottled. */
-    private static WineFutures ofSix() {
-        WineFutures x = estate(1, 0, 6);
+    private static LongEstate ofSix() {
+        LongEstate x = estate(1, 0, 6);
         for (int i = 1; i < 6; i++) {
             x.lot(1, 0);
         }
@@ -158,16 +159,45 @@ public final class CallBoundaries extends EstateTests {
     }
 
     /** 35 are held of a lot that has 34 cases. */
-    private static WineFutures withLoser() {
-        WineFutures x = estate(2, 50, 2);
+    private static LongEstate withLoser() {
+        LongEstate x = estate(2, 50, 2);
         x.sell(0, 0, 30, 20);
         x.sell(0, 1, 5, 20);
         x.pass(6);
         return x;
     }
 
-    private static void newObject(Checks t) {
+    /** Each of the calls is answered, the 512th one too. */
+    private static void calls512(Checks t) {
         WineFutures x = new WineFutures();
+        x.lot(1, 0);
+        for (int calls = 2; calls <= 511; calls++) {
+            t.due("call " + calls, x.pass(1), 0);
+        }
+        t.due("call 512", x.count(2), 510);
+        WineFutures changes = new WineFutures();
+        changes.lot(12, 0);
+        for (int calls = 2; calls <= 512; calls++) {
+            t.due("tasting " + calls, changes.taste(0, 100), 110);
+        }
+        WineFutures states = new WineFutures();
+        for (int calls = 1; calls <= 510; calls += 2) {
+            t.due("change " + calls, states.set(0, calls % 100), 10);
+            t.due("undo " + calls, states.undo(), 0);
+        }
+        t.due("change 511", states.buyer(), 0);
+        t.due("undo 512", states.undo(), 0);
+        WineFutures texts = new WineFutures();
+        for (int calls = 1; calls <= 510; calls += 2) {
+            t.due("type " + calls, texts.type('m'), 1);
+            t.due("clearText " + calls, texts.clearText(), 1);
+        }
+        t.due("fault 511", texts.fault(0), NOT_FOUND);
+        t.due("play 512", texts.play(), 0);
+    }
+
+    private static void newObject(Checks t) {
+        LongEstate x = new LongEstate();
         for (int what = 0; what <= 11; what++) {
             t.due("count(" + what + ")", x.count(what), 0);
         }
@@ -181,7 +211,7 @@ public final class CallBoundaries extends EstateTests {
 
     private static void cases1To999(Checks t) {
         int[] bad = {0, -1, 1000, LEAST, MOST};
-        WineFutures x = estate(12, 0, 2);
+        LongEstate x = estate(12, 0, 2);
         x.lot(1, 0);
         x.sell(1, 0, 5, 1);
         x.bottle(1);
@@ -204,12 +234,12 @@ public final class CallBoundaries extends EstateTests {
     }
 
     private static void valueInItsRange(Checks t) {
-        range(t, 0, 100, WineFutures::new, (x, v) -> x.set(0, v));
-        range(t, 0, 36, WineFutures::new, (x, v) -> x.set(1, v));
+        range(t, 0, 100, LongEstate::new, (x, v) -> x.set(0, v));
+        range(t, 0, 36, LongEstate::new, (x, v) -> x.set(1, v));
     }
 
     private static int ofLot(int call, int lot) {
-        WineFutures x = ofSix();
+        LongEstate x = ofSix();
         switch (call) {
             case 0: return x.taste(lot, 5);
             case 1: return x.top(lot);
@@ -242,7 +272,7 @@ public final class CallBoundaries extends EstateTests {
     }
 
     private static void barrelNumbers(Checks t) {
-        WineFutures x = estate(12, 0, 0);
+        LongEstate x = estate(12, 0, 0);
         x.taste(0, 1);
         t.due("the first one", x.barrel(0, 0), 2240);
         for (int barrel = 1; barrel < 12; barrel++) {
@@ -255,7 +285,7 @@ public final class CallBoundaries extends EstateTests {
     }
 
     private static void whose(Checks t) {
-        WineFutures x = ofSix();
+        LongEstate x = ofSix();
         t.due("the estate", x.account(-1), 72);
         for (int buyer = 0; buyer < 6; buyer++) {
             t.due("buyer " + buyer, x.account(buyer), -12);
@@ -267,7 +297,7 @@ public final class CallBoundaries extends EstateTests {
     }
 
     private static void entryNumbers(Checks t) {
-        WineFutures x = ofSix();
+        LongEstate x = ofSix();
         for (int index = 0; index < 6; index++) {
             t.due("entry " + index, x.entry(index, 2), 5 - index);
         }
@@ -284,20 +314,20 @@ public final class CallBoundaries extends EstateTests {
 
     private static void entryWhats(Checks t) {
         range(t, 0, 5, () -> {
-            WineFutures x = ofSix();
+            LongEstate x = ofSix();
             x.trade(0, 0, 1, 1, 1);
             return x;
         }, (x, v) -> x.entry(0, v));
         int[] bad = {-1, 6, LEAST, MOST};
         for (int what : bad) {
-            t.due("what " + what + " of no entry", new WineFutures().entry(0, what), INVALID);
+            t.due("what " + what + " of no entry", new LongEstate().entry(0, what), INVALID);
         }
     }
 
     private static void countWhats(Checks t) {
         range(t, 0, 11, CallBoundaries::ofSix, (x, v) -> x.count(v));
         range(t, 20, 21, CallBoundaries::ofSix, (x, v) -> x.count(v));
-        WineFutures x = ofSix();
+        LongEstate x = ofSix();
         for (int what = 12; what <= 19; what++) {
             t.due("count(" + what + ")", x.count(what), INVALID);
         }
@@ -305,19 +335,19 @@ public final class CallBoundaries extends EstateTests {
 
     private static void faultWhats(Checks t) {
         range(t, 0, 2, () -> {
-            WineFutures x = new WineFutures();
+            LongEstate x = new LongEstate();
             x.type('x');
             return x;
         }, (x, v) -> x.fault(v));
         int[] bad = {-1, 3, LEAST, MOST};
         for (int what : bad) {
-            t.due("what " + what + " of no fault", new WineFutures().fault(what), INVALID);
+            t.due("what " + what + " of no fault", new LongEstate().fault(what), INVALID);
         }
     }
 
     private static void lotReturns(Checks t) {
         range(t, 0, 50, () -> estate(1, 0, 0), (x, v) -> x.lot(1, v));
-        WineFutures x = new WineFutures();
+        LongEstate x = new LongEstate();
         for (int i = 0; i < 6; i++) {
             t.due("lot()", x.lot(12, 50), i);
         }
@@ -326,24 +356,24 @@ public final class CallBoundaries extends EstateTests {
     }
 
     private static void tasteReturns(Checks t) {
-        WineFutures x = estate(1, 0, 0);
+        LongEstate x = estate(1, 0, 0);
         t.due("the quote then", x.taste(0, 100), 110);
         t.due("the quote of both", x.taste(0, 0), 35);
         x.bottle(0);
         refused(t, x, "bottled", NOT_POSSIBLE, () -> x.taste(0, 0));
-        WineFutures ten = aged(12, 48, 55);
+        LongEstate ten = aged(12, 48, 55);
         tasteOften(ten, 0, 23);
         t.dueRow("a barrel has 10", barrels(ten, 0), 10);
         t.due("taste of it", ten.taste(0, 50), 35);
         refused(t, ten, "no barrel is left", NOT_POSSIBLE, () -> ten.taste(0, 50));
-        WineFutures nine = aged(12, 49, 54);
+        LongEstate nine = aged(12, 49, 54);
         tasteOften(nine, 0, 12);
         t.dueRow("each has 9", barrels(nine, 0), 9, 9, 9, 9, 9, 9, 9, 9, 9, 9, 9, 9);
         refused(t, nine, "no barrel has 10", NOT_POSSIBLE, () -> nine.taste(0, 50));
     }
 
     private static void topReturns(Checks t) {
-        WineFutures x = estate(12, 1, 0);
+        LongEstate x = estate(12, 1, 0);
         refused(t, x, "all have 2250", NOT_POSSIBLE, () -> x.top(0));
         x.taste(0, 0);
         t.due("12 barrels then", x.top(0), 12);
@@ -358,15 +388,15 @@ public final class CallBoundaries extends EstateTests {
     }
 
     private static void passReturns(Checks t) {
-        WineFutures none = new WineFutures();
+        LongEstate none = new LongEstate();
         t.due("without a lot", none.pass(60), 0);
-        WineFutures x = estate(12, 50, 0);
+        LongEstate x = estate(12, 50, 0);
         for (int i = 1; i < 6; i++) {
             x.lot(12, 50);
         }
         t.due("of 6 lots of 12 barrels", x.pass(1), 72 * 112);
         t.due("month", x.count(2), 1);
-        WineFutures late = new WineFutures();
+        LongEstate late = new LongEstate();
         passMany(late, 939);
         t.due("939 and 60", late.pass(60), 0);
         t.due("999", late.count(2), 999);
@@ -380,10 +410,10 @@ public final class CallBoundaries extends EstateTests {
     }
 
     private static void bottleReturns(Checks t) {
-        WineFutures x = withLoser();
+        LongEstate x = withLoser();
         t.due("5 times 34 by 35, 30 times 34 by 35", x.bottle(0), 2);
         refused(t, x, "bottled", NOT_POSSIBLE, () -> x.bottle(0));
-        WineFutures empty = aged(1, 48, 55);
+        LongEstate empty = aged(1, 48, 55);
         tasteOften(empty, 0, 2);
         t.due("without a barrel", empty.bottle(0), 0);
         t.due("no case", empty.lotOf(0, 3), 0);
@@ -391,7 +421,7 @@ public final class CallBoundaries extends EstateTests {
     }
 
     private static void buyerReturns(Checks t) {
-        WineFutures x = new WineFutures();
+        LongEstate x = new LongEstate();
         for (int i = 0; i < 6; i++) {
             t.due("buyer()", x.buyer(), i);
         }
@@ -402,7 +432,7 @@ public final class CallBoundaries extends EstateTests {
     }
 
     private static void sellReturns(Checks t) {
-        WineFutures x = estate(1, 0, 2);
+        LongEstate x = estate(1, 0, 2);
         refused(t, x, "26 of 25", NOT_POSSIBLE, () -> x.sell(0, 0, 26, 1));
         t.due("24", x.sell(0, 0, 24, 1), 24);
         refused(t, x, "2 more", NOT_POSSIBLE, () -> x.sell(0, 1, 2, 1));
@@ -410,13 +440,13 @@ public final class CallBoundaries extends EstateTests {
         refused(t, x, "1 more", NOT_POSSIBLE, () -> x.sell(0, 1, 1, 1));
         x.bottle(0);
         refused(t, x, "bottled", NOT_POSSIBLE, () -> x.sell(0, 0, 1, 1));
-        WineFutures free = estate(1, 0, 1);
+        LongEstate free = estate(1, 0, 1);
         free.bottle(0);
         refused(t, free, "bottled, with cases that nobody has", NOT_POSSIBLE, () -> free.sell(0, 0, 1, 1));
     }
 
     private static void tradeReturns(Checks t) {
-        WineFutures x = ofSix();
+        LongEstate x = ofSix();
         for (int buyer = 0; buyer < 6; buyer++) {
             int same = buyer;
             refused(t, x, "both are " + buyer, INVALID, () -> x.trade(0, same, same, 1, 1));
@@ -429,7 +459,7 @@ public final class CallBoundaries extends EstateTests {
     }
 
     private static void redeemReturns(Checks t) {
-        WineFutures x = ofSix();
+        LongEstate x = ofSix();
         refused(t, x, "4 of 4 of an open lot", NOT_POSSIBLE, () -> x.redeem(0, 0, 4));
         x.bottle(0);
         refused(t, x, "5 of 4", NOT_POSSIBLE, () -> x.redeem(0, 0, 5));
@@ -441,7 +471,7 @@ public final class CallBoundaries extends EstateTests {
     }
 
     private static void setReturns(Checks t) {
-        WineFutures x = new WineFutures();
+        LongEstate x = new LongEstate();
         int[] first = {10, 12};
         int[] most = {100, 36};
         for (int what = 0; what <= 1; what++) {
@@ -455,7 +485,7 @@ public final class CallBoundaries extends EstateTests {
     }
 
     private static void lotOfReturns(Checks t) {
-        WineFutures x = withLoser();
+        LongEstate x = withLoser();
         int[] open = {2, 50, 3140, 34, 34, 35, 10, 0, 0, 0};
         for (int what = 0; what <= 9; what++) {
             t.due("open: " + what, x.lotOf(0, what), open[what]);
@@ -475,7 +505,7 @@ public final class CallBoundaries extends EstateTests {
     }
 
     private static void barrelReturns(Checks t) {
-        WineFutures x = new WineFutures();
+        LongEstate x = new LongEstate();
         t.due("no such lot", x.barrel(0, 0), INVALID);
         x.lot(1, 0);
         t.due("the only one", x.barrel(0, 0), 2250);
@@ -489,7 +519,7 @@ public final class CallBoundaries extends EstateTests {
     }
 
     private static void holdingReturns(Checks t) {
-        WineFutures x = estate(1, 0, 2);
+        LongEstate x = estate(1, 0, 2);
         t.due("without futures", x.holding(0, 0, 3), NOT_FOUND);
         t.due("futures without any", x.holding(0, 0, 0), 0);
         t.due("paid without any", x.holding(0, 0, 1), 0);
@@ -504,7 +534,7 @@ public final class CallBoundaries extends EstateTests {
         x.bottle(0);
         x.redeem(0, 1, 3);
         t.due("all are redeemed", x.holding(1, 0, 3), NOT_FOUND);
-        WineFutures cut = estate(1, 31, 1);
+        LongEstate cut = estate(1, 31, 1);
         cut.sell(0, 0, 1, 5);
         t.due("5 by 1", cut.holding(0, 0, 3), 0x40a00000);
         cut.pass(58);
@@ -515,7 +545,7 @@ public final class CallBoundaries extends EstateTests {
 
     /** The mean with each kind of rest, from just below 1 up to 999. */
     private static void manyMeans(Checks t) {
-        WineFutures x = estate(12, 0, 2);
+        LongEstate x = estate(12, 0, 2);
         x.sell(0, 0, 300, 999);
         x.trade(0, 0, 1, 1, 999);
         int paid = 299 * 999;
@@ -527,7 +557,7 @@ public final class CallBoundaries extends EstateTests {
             paid -= (int) ((long) paid / 300);
             t.due("299 held", x.holding(0, 0, 3), Float.floatToIntBits((float) paid / 299f));
         }
-        WineFutures one = estate(12, 0, 2);
+        LongEstate one = estate(12, 0, 2);
         one.sell(0, 0, 300, 0);
         one.trade(0, 0, 1, 299, 1);
         t.due("299 by 299", one.holding(1, 0, 3), 0x3f800000);
@@ -536,7 +566,7 @@ public final class CallBoundaries extends EstateTests {
     }
 
     private static void accountReturns(Checks t) {
-        WineFutures x = new WineFutures();
+        LongEstate x = new LongEstate();
         t.due("buyer 0 of none", x.account(0), INVALID);
         x.buyer();
         t.due("buyer 0 of one", x.account(0), 0);
@@ -548,7 +578,7 @@ public final class CallBoundaries extends EstateTests {
     }
 
     private static void entryReturns(Checks t) {
-        WineFutures x = estate(1, 0, 2);
+        LongEstate x = estate(1, 0, 2);
         t.due("0 of 0", x.entry(0, 0), NOT_FOUND);
         t.due("4 of none", x.entry(0, 4), NOT_FOUND);
         x.sell(0, 0, 25, 7);
@@ -572,7 +602,7 @@ public final class CallBoundaries extends EstateTests {
     }
 
     private static void casesReturns(Checks t) {
-        WineFutures x = estate(1, 50, 0);
+        LongEstate x = estate(1, 50, 0);
         t.due("now", x.cases(0, 0), 25);
         t.due("2138", x.cases(0, 1), 23);
         t.due("180 behind 27 months", x.cases(0, 27), 2);
@@ -580,15 +610,15 @@ public final class CallBoundaries extends EstateTests {
         t.due("90 behind 34 months", x.cases(0, 34), 1);
         t.due("82 behind 35 months", x.cases(0, 35), 0);
         t.due("behind 120 months", x.cases(0, 120), 0);
-        WineFutures slow = estate(12, 1, 0);
+        LongEstate slow = estate(12, 1, 0);
         t.due("120 months of 2 each", slow.cases(0, 120), 12 * (2250 - 240) / 90);
         t.due("119 months of 2 each", slow.cases(0, 119), 12 * (2250 - 238) / 90);
-        WineFutures late = estate(1, 50, 0);
+        LongEstate late = estate(1, 50, 0);
         passMany(late, 999);
         late.lot(1, 50);
         t.due("far behind the last month", late.cases(1, 120), 0);
         t.due("a month behind the last one", late.cases(1, 1), 23);
-        WineFutures empty = aged(1, 48, 55);
+        LongEstate empty = aged(1, 48, 55);
         tasteOften(empty, 0, 2);
         t.due("without a barrel", empty.cases(0, 120), 0);
         empty.bottle(0);
@@ -596,7 +626,7 @@ public final class CallBoundaries extends EstateTests {
     }
 
     private static void sellableReturns(Checks t) {
-        WineFutures x = estate(1, 50, 1);
+        LongEstate x = estate(1, 50, 1);
         t.due("25", x.sellable(0), 25);
         x.sell(0, 0, 24, 1);
         t.due("1", x.sellable(0), 1);
@@ -610,7 +640,7 @@ public final class CallBoundaries extends EstateTests {
     }
 
     private static void deadlineReturns(Checks t) {
-        WineFutures none = estate(1, 50, 1);
+        LongEstate none = estate(1, 50, 1);
         t.due("no futures", none.deadline(0), NOT_FOUND);
         none.sell(0, 0, 1, 1);
         t.due("0 cases of 1 behind 35 months", none.deadline(0), 35);
@@ -620,7 +650,7 @@ public final class CallBoundaries extends EstateTests {
         t.due("23 cases of 25", none.deadline(0), 0);
         none.bottle(0);
         t.due("bottled", none.deadline(0), NOT_POSSIBLE);
-        WineFutures far = estate(1, 1, 1);
+        LongEstate far = estate(1, 1, 1);
         far.sell(0, 0, 22, 1);
         far.pass(24);
         t.due("behind 121 months", far.deadline(0), NOT_FOUND);
@@ -629,13 +659,13 @@ public final class CallBoundaries extends EstateTests {
         t.due("behind 120 months", far.deadline(0), 120);
         t.due("cases behind 120 then", far.cases(0, 120), 21);
         t.due("cases behind 119 then", far.cases(0, 119), 22);
-        WineFutures empty = aged(1, 48, 55);
+        LongEstate empty = aged(1, 48, 55);
         tasteOften(empty, 0, 2);
         t.due("no wine, no futures", empty.deadline(0), NOT_FOUND);
     }
 
     private static void toppingReturns(Checks t) {
-        WineFutures x = aged(3, 50, 6);
+        LongEstate x = aged(3, 50, 6);
         x.set(1, 12);
         t.due("4 more", x.topping(0), 4);
         x.set(1, 0);
@@ -645,13 +675,13 @@ public final class CallBoundaries extends EstateTests {
         t.due("no more behind 36 months", x.topping(0), 0);
         x.top(0);
         t.due("topped up", x.topping(0), NOT_POSSIBLE);
-        WineFutures below = estate(2, 50, 0);
+        LongEstate below = estate(2, 50, 0);
         below.pass(2);
         tasteOften(below, 0, 23);
         below.set(1, 1);
         t.dueRow("1802 and 2032", barrels(below, 0), 1802, 2032);
         t.due("3643 to 3564: below 0", below.topping(0), -1);
-        WineFutures full = estate(12, 50, 0);
+        LongEstate full = estate(12, 50, 0);
         t.due("all have 2250", full.topping(0), NOT_POSSIBLE);
         full.taste(0, 0);
         t.due("one has less", full.topping(0), 0);
@@ -661,7 +691,7 @@ public final class CallBoundaries extends EstateTests {
     }
 
     private static void loserReturns(Checks t) {
-        WineFutures x = estate(1, 0, 6);
+        LongEstate x = estate(1, 0, 6);
         t.due("none is held", x.loser(0, 0), NOT_FOUND);
         x.sell(0, 5, 13, 1);
         x.sell(0, 3, 12, 1);
@@ -672,7 +702,7 @@ public final class CallBoundaries extends EstateTests {
         t.due("25 of 24, how many", x.loser(0, 1), 1);
         x.trade(0, 3, 0, 1, 1);
         t.due("another one is the lowest", x.loser(0, 0), 0);
-        WineFutures most = withLoser();
+        LongEstate most = withLoser();
         most.pass(1);
         t.due("30 times 31 by 35 is 26, 5 times 31 by 35 is 4", most.loser(0, 0), 0);
         t.due("how many", most.loser(0, 1), 4);
@@ -686,7 +716,7 @@ public final class CallBoundaries extends EstateTests {
     }
 
     private static void countReturns(Checks t) {
-        WineFutures x = withLoser();
+        LongEstate x = withLoser();
         int[] open = {1, 2, 6, 0, 3140, 1360, 35, 0, 0, 2, 4, 0};
         for (int what = 0; what <= 11; what++) {
             t.due("open: " + what, x.count(what), open[what]);
@@ -701,12 +731,12 @@ public final class CallBoundaries extends EstateTests {
         }
         t.due("setting 0", x.count(20), 0);
         t.due("setting 1", x.count(21), 0);
-        WineFutures tasted = estate(1, 0, 0);
+        LongEstate tasted = estate(1, 0, 0);
         tasted.taste(0, 5);
         t.due("tasted wine is not lost", tasted.count(5), 0);
         tasted.bottle(0);
         t.due("nor what is below a case", tasted.count(5), 0);
-        WineFutures topped = aged(2, 13, 36);
+        LongEstate topped = aged(2, 13, 36);
         int lost = topped.count(5);
         topped.top(0);
         t.due("nor is any by topping up", topped.count(5), lost);
@@ -714,7 +744,7 @@ public final class CallBoundaries extends EstateTests {
     }
 
     private static void undoReturns(Checks t) {
-        WineFutures x = new WineFutures();
+        LongEstate x = new LongEstate();
         t.due("empty", x.undo(), NOT_POSSIBLE);
         x.buyer();
         t.due("of one", x.undo(), 0);
@@ -731,7 +761,7 @@ public final class CallBoundaries extends EstateTests {
     }
 
     private static void typeReturns(Checks t) {
-        WineFutures x = new WineFutures();
+        LongEstate x = new LongEstate();
         for (int length = 1; length <= 60; length++) {
             t.due("type()", x.type(31 + length), length);
         }
@@ -745,7 +775,7 @@ public final class CallBoundaries extends EstateTests {
     }
 
     private static void clearTextReturns(Checks t) {
-        WineFutures x = new WineFutures();
+        LongEstate x = new LongEstate();
         t.due("empty", x.clearText(), 0);
         x.type('m');
         t.due("one character", x.clearText(), 1);
@@ -758,7 +788,7 @@ public final class CallBoundaries extends EstateTests {
     }
 
     private static void faultReturns(Checks t) {
-        WineFutures x = new WineFutures();
+        LongEstate x = new LongEstate();
         t.dueRow("empty", faultRow(x), NOT_FOUND, NOT_FOUND, NOT_FOUND);
         x.type('m');
         t.dueRow("m", faultRow(x), 0, 1, 1);
@@ -781,7 +811,7 @@ public final class CallBoundaries extends EstateTests {
     }
 
     private static void playOrders(Checks t) {
-        WineFutures x = new WineFutures();
+        LongEstate x = new LongEstate();
         t.due("none", x.play(), 0);
         t.due("a change", x.count(10), 1);
         Checks.typeAll(x, "l1,0;");
@@ -804,14 +834,14 @@ public final class CallBoundaries extends EstateTests {
     }
 
     private static void playReturns(Checks t) {
-        WineFutures x = new WineFutures();
+        LongEstate x = new LongEstate();
         String text = "";
         for (int orders = 0; orders <= 20; orders++) {
-            Checks.retype(x, text);
-            t.due("orders", x.play(), orders);
+            LongEstate played = typed(text);
+            t.due("orders", played.play(), orders);
+            t.due("month", played.count(2), orders);
             text += "m1;";
         }
-        t.due("month", x.count(2), 210);
         Checks.retype(x, "m1;m1;b0;");
         refused(t, x, "the last one has a fault", NOT_POSSIBLE, () -> x.play());
         Checks.retype(x, "m1;m1;m1");

@@ -29,19 +29,19 @@ final class Checks {
         return wrong == 0;
     }
 
-    static void typeAll(WineFutures x, String text) {
+    static void typeAll(LongEstate x, String text) {
         for (int i = 0; i < text.length(); i++) {
             x.type(text.charAt(i));
         }
     }
 
-    static void retype(WineFutures x, String text) {
+    static void retype(LongEstate x, String text) {
         x.clearText();
         typeAll(x, text);
     }
 
     /** All that can be asked of an object but of its text and the number of its states. */
-    static String snapshot(WineFutures x) {
+    static String snapshot(LongEstate x) {
         StringBuilder all = new StringBuilder();
         for (int what = 0; what <= 9; what++) {
             all.append(x.count(what)).append(' ');

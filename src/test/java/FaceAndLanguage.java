@@ -31,6 +31,7 @@ public final class FaceAndLanguage {
     private static final String[] NOT_IN_SOURCE = {"import ", "->", "::", "synchronized", "assert ", "finally",
         "catch", "throw", "Exact", "equals(", "hashCode", "toString", "package ", "record "};
     private static final int MOST_BYTES_A_RUN = 200000;
+    private static final char[] SOME_ORDERS = "m1;t0,50;s0,0,1,1;".toCharArray();
 
     public static void main(String[] args) throws Exception {
         int passed = 0;
@@ -199,7 +200,9 @@ public final class FaceAndLanguage {
         x.buyer();
         x.buyer();
         x.lot(12, 1);
-        Checks.typeAll(x, "m1;t0,50;s0,0,1,1;");
+        for (char sign : SOME_ORDERS) {
+            x.type(sign);
+        }
         for (int i = 0; i < 40; i++) {
             x.sell(0, 0, 2, i);
             x.trade(0, 0, 1, 1, i);

@@ -31,7 +31,7 @@ public final class FuturesBoundaries extends EstateTests {
     }
 
     private static void sixBuyers(Checks t) {
-        WineFutures x = new WineFutures();
+        LongEstate x = new LongEstate();
         x.lot(1, 0);
         for (int i = 0; i < 6; i++) {
             t.due("ahead of buyer " + i, x.account(i), INVALID);
@@ -52,14 +52,14 @@ public final class FuturesBoundaries extends EstateTests {
     }
 
     private static void buyersAccounts(Checks t) {
-        WineFutures x = estate(1, 0, 2);
+        LongEstate x = estate(1, 0, 2);
         t.due("at first", x.account(0), 0);
         x.sell(0, 0, 1, 1);
         t.due("below 0", x.account(0), -1);
         x.trade(0, 0, 1, 1, 1);
         t.due("0 again", x.account(0), 0);
         t.due("the other one", x.account(1), -1);
-        WineFutures far = estate(12, 0, 2);
+        LongEstate far = estate(12, 0, 2);
         far.sell(0, 0, 300, 999);
         t.due("far below 0", far.account(0), -299700);
         for (int i = 0; i < 200; i++) {
@@ -71,7 +71,7 @@ public final class FuturesBoundaries extends EstateTests {
     }
 
     private static void estateAccount(Checks t) {
-        WineFutures x = estate(1, 50, 2);
+        LongEstate x = estate(1, 50, 2);
         t.due("at first", x.account(-1), 0);
         x.sell(0, 0, 25, 0);
         t.due("sold for nothing", x.account(-1), 0);
@@ -86,7 +86,7 @@ public final class FuturesBoundaries extends EstateTests {
     }
 
     private static void heldByLot(Checks t) {
-        WineFutures x = estate(1, 0, 6);
+        LongEstate x = estate(1, 0, 6);
         for (int i = 1; i < 6; i++) {
             x.lot(1, 0);
         }
@@ -105,7 +105,7 @@ public final class FuturesBoundaries extends EstateTests {
     }
 
     private static void atMostExpected(Checks t) {
-        WineFutures x = new WineFutures();
+        LongEstate x = new LongEstate();
         x.lot(2, 40);
         x.buyer();
         x.buyer();
@@ -124,13 +124,13 @@ public final class FuturesBoundaries extends EstateTests {
         t.due("21 of 21", x.sell(0, 0, 1, 1), 1);
         x.pass(12);
         refused(t, x, "more are held than expected", NOT_POSSIBLE, () -> x.sell(0, 0, 1, 1));
-        WineFutures none = estate(1, 31, 1);
+        LongEstate none = estate(1, 31, 1);
         none.pass(58);
         refused(t, none, "1 of 0", NOT_POSSIBLE, () -> none.sell(0, 0, 1, 0));
-        WineFutures full = estate(12, 0, 1);
+        LongEstate full = estate(12, 0, 1);
         refused(t, full, "301 of 300", NOT_POSSIBLE, () -> full.sell(0, 0, 301, 1));
         t.due("300 of 300", full.sell(0, 0, 300, 1), 300);
-        WineFutures set = estate(1, 0, 1);
+        LongEstate set = estate(1, 0, 1);
         set.set(0, 100);
         refused(t, set, "setting 0 is 100", NOT_POSSIBLE, () -> set.sell(0, 0, 1, 1));
         set.bottle(0);
@@ -138,7 +138,7 @@ public final class FuturesBoundaries extends EstateTests {
     }
 
     private static void pricePaid(Checks t) {
-        WineFutures x = estate(1, 0, 1);
+        LongEstate x = estate(1, 0, 1);
         x.sell(0, 0, 3, 0);
         t.due("for nothing", x.account(0), 0);
         t.due("nothing paid", x.holding(0, 0, 1), 0);
@@ -151,7 +151,7 @@ public final class FuturesBoundaries extends EstateTests {
     }
 
     private static void tradePaid(Checks t) {
-        WineFutures x = estate(1, 0, 2);
+        LongEstate x = estate(1, 0, 2);
         x.sell(0, 0, 3, 5);
         refused(t, x, "4 of 3", NOT_POSSIBLE, () -> x.trade(0, 0, 1, 4, 7));
         refused(t, x, "of one who has none", NOT_POSSIBLE, () -> x.trade(0, 1, 0, 1, 7));
@@ -163,14 +163,14 @@ public final class FuturesBoundaries extends EstateTests {
         x.trade(0, 1, 0, 1, 0);
         t.due("for nothing", x.account(0), 6);
         t.due("1 is held then", x.holding(0, 0, 0), 1);
-        WineFutures other = estate(1, 0, 2);
+        LongEstate other = estate(1, 0, 2);
         other.lot(1, 0);
         other.sell(0, 0, 3, 5);
         refused(t, other, "futures of another lot", NOT_POSSIBLE, () -> other.trade(1, 0, 1, 1, 7));
     }
 
     private static void sellersShare(Checks t) {
-        WineFutures x = estate(1, 0, 2);
+        LongEstate x = estate(1, 0, 2);
         x.sell(0, 0, 1, 5);
         x.sell(0, 0, 2, 1);
         t.due("3 for 7", x.holding(0, 0, 1), 7);
@@ -181,18 +181,18 @@ public final class FuturesBoundaries extends EstateTests {
         x.trade(0, 0, 1, 1, 0);
         t.due("the last one: less 3", x.holding(0, 0, 1), 0);
         t.due("none is held", x.holding(0, 0, 0), 0);
-        WineFutures all = estate(1, 0, 2);
+        LongEstate all = estate(1, 0, 2);
         all.sell(0, 0, 3, 333);
         all.trade(0, 0, 1, 3, 0);
         t.due("all at once", all.holding(0, 0, 1), 0);
-        WineFutures great = estate(12, 0, 2);
+        LongEstate great = estate(12, 0, 2);
         great.sell(0, 0, 300, 999);
         great.trade(0, 0, 1, 299, 0);
         t.due("299700 times 299 by 300", great.holding(0, 0, 1), 999);
     }
 
     private static void buyersShare(Checks t) {
-        WineFutures x = estate(1, 0, 2);
+        LongEstate x = estate(1, 0, 2);
         x.sell(0, 0, 3, 5);
         x.trade(0, 0, 1, 1, 999);
         t.due("the first one", x.holding(1, 0, 1), 999);
@@ -203,17 +203,17 @@ public final class FuturesBoundaries extends EstateTests {
     }
 
     private static void cutIfMore(Checks t) {
-        WineFutures none = estate(1, 0, 2);
+        LongEstate none = estate(1, 0, 2);
         t.due("none held", none.bottle(0), 0);
         t.due("no entry", none.count(9), 0);
-        WineFutures same = estate(1, 0, 2);
+        LongEstate same = estate(1, 0, 2);
         same.sell(0, 0, 13, 3);
         same.sell(0, 1, 12, 3);
         t.due("25 of 25", same.bottle(0), 0);
         t.dueRow("held", ofBuyers(same, 0, 0), 13, 12);
         t.due("no entry of a cut", same.count(9), 2);
         t.due("no cut so far", same.count(8), 0);
-        WineFutures more = estate(1, 0, 2);
+        LongEstate more = estate(1, 0, 2);
         more.sell(0, 0, 13, 3);
         more.sell(0, 1, 12, 3);
         more.taste(0, 50);
@@ -225,7 +225,7 @@ public final class FuturesBoundaries extends EstateTests {
     }
 
     private static void cutToNothing(Checks t) {
-        WineFutures one = estate(1, 32, 3);
+        LongEstate one = estate(1, 32, 3);
         one.sell(0, 0, 1, 5);
         one.sell(0, 1, 1, 7);
         one.pass(55);
@@ -235,17 +235,17 @@ public final class FuturesBoundaries extends EstateTests {
         t.due("the case stays", one.lotOf(0, 3), 1);
         t.due("accounts", one.account(-1), 0);
         t.due("entries", one.count(9), 4);
-        WineFutures alone = estate(1, 32, 1);
+        LongEstate alone = estate(1, 32, 1);
         alone.sell(0, 0, 1, 5);
         alone.pass(55);
         t.due("a case for one", alone.bottle(0), 0);
         t.due("held", alone.holding(0, 0, 0), 1);
-        WineFutures without = estate(1, 31, 1);
+        LongEstate without = estate(1, 31, 1);
         without.sell(0, 0, 1, 5);
         without.pass(58);
         t.due("no case for one", without.bottle(0), 1);
         t.due("account", without.account(0), 0);
-        WineFutures others = estate(1, 31, 1);
+        LongEstate others = estate(1, 31, 1);
         others.lot(1, 0);
         others.sell(0, 0, 1, 5);
         others.sell(1, 0, 25, 5);
@@ -255,7 +255,7 @@ public final class FuturesBoundaries extends EstateTests {
     }
 
     private static void paidBack(Checks t) {
-        WineFutures x = estate(1, 50, 1);
+        LongEstate x = estate(1, 50, 1);
         x.sell(0, 0, 1, 5);
         x.sell(0, 0, 2, 1);
         x.pass(27);
@@ -264,13 +264,13 @@ public final class FuturesBoundaries extends EstateTests {
         t.due("paid then", x.holding(0, 0, 1), 5);
         t.due("account", x.account(0), -5);
         t.due("the estate's", x.account(-1), 5);
-        WineFutures nothing = estate(1, 50, 1);
+        LongEstate nothing = estate(1, 50, 1);
         nothing.sell(0, 0, 3, 0);
         nothing.pass(27);
         t.due("3 of 2 for nothing", nothing.bottle(0), 1);
         t.dueRow("an entry of 0", entryRow(nothing, 0), 2, 0, 0, 1, 0, NOT_FOUND);
         t.due("nothing is paid back", nothing.account(0), 0);
-        WineFutures all = estate(12, 50, 2);
+        LongEstate all = estate(12, 50, 2);
         all.sell(0, 0, 300, 999);
         all.pass(60);
         t.due("2 of 300", all.bottle(0), 298);
@@ -279,7 +279,7 @@ public final class FuturesBoundaries extends EstateTests {
     }
 
     private static void buyersInOrder(Checks t) {
-        WineFutures x = estate(1, 50, 6);
+        LongEstate x = estate(1, 50, 6);
         for (int buyer = 5; buyer >= 0; buyer--) {
             if (buyer != 2) {
                 x.sell(0, buyer, 5, buyer);
@@ -295,7 +295,7 @@ public final class FuturesBoundaries extends EstateTests {
     }
 
     private static void redeemed(Checks t) {
-        WineFutures x = estate(1, 0, 2);
+        LongEstate x = estate(1, 0, 2);
         x.sell(0, 0, 3, 5);
         refused(t, x, "of an open lot", NOT_POSSIBLE, () -> x.redeem(0, 0, 1));
         x.bottle(0);
@@ -304,7 +304,7 @@ public final class FuturesBoundaries extends EstateTests {
         t.due("3 of 3", x.redeem(0, 0, 3), 22);
         t.due("delivered to 0", x.holding(0, 0, 2), 3);
         refused(t, x, "1 of 0", NOT_POSSIBLE, () -> x.redeem(0, 0, 1));
-        WineFutures all = estate(1, 0, 1);
+        LongEstate all = estate(1, 0, 1);
         all.sell(0, 0, 25, 5);
         all.bottle(0);
         t.due("24 of 25", all.redeem(0, 0, 24), 1);
@@ -312,7 +312,7 @@ public final class FuturesBoundaries extends EstateTests {
         t.due("none is left", all.lotOf(0, 3), 0);
         t.due("25 are delivered", all.lotOf(0, 9), 25);
         t.due("cases when it was bottled", all.lotOf(0, 4), 25);
-        WineFutures bought = estate(1, 0, 2);
+        LongEstate bought = estate(1, 0, 2);
         bought.sell(0, 0, 1, 5);
         bought.bottle(0);
         bought.trade(0, 0, 1, 1, 9);
@@ -320,7 +320,7 @@ public final class FuturesBoundaries extends EstateTests {
     }
 
     private static void redeemedShare(Checks t) {
-        WineFutures x = estate(1, 0, 1);
+        LongEstate x = estate(1, 0, 1);
         x.sell(0, 0, 1, 5);
         x.sell(0, 0, 2, 1);
         x.bottle(0);
@@ -333,7 +333,7 @@ public final class FuturesBoundaries extends EstateTests {
     }
 
     private static void twelveEntries(Checks t) {
-        WineFutures x = estate(12, 0, 2);
+        LongEstate x = estate(12, 0, 2);
         refused(t, x, "a sale that is not possible", NOT_POSSIBLE, () -> x.sell(0, 0, 301, 1));
         t.due("no entry", x.entry(0, 0), NOT_FOUND);
         for (int i = 1; i <= 14; i++) {
@@ -351,7 +351,7 @@ public final class FuturesBoundaries extends EstateTests {
     }
 
     private static void cutsInTheBook(Checks t) {
-        WineFutures x = estate(1, 31, 6);
+        LongEstate x = estate(1, 31, 6);
         for (int i = 0; i < 12; i++) {
             x.sell(0, i % 6, 1, i);
         }
@@ -369,7 +369,7 @@ public final class FuturesBoundaries extends EstateTests {
     }
 
     private static void kinds(Checks t) {
-        WineFutures x = estate(2, 0, 3);
+        LongEstate x = estate(2, 0, 3);
         x.sell(0, 0, 30, 4);
         t.dueRow("a sale", entryRow(x, 0), 0, 0, 0, 30, 4, NOT_FOUND);
         x.trade(0, 0, 2, 20, 9);

@@ -32,13 +32,13 @@ public final class LotBoundaries extends EstateTests {
 
     private static void roundedDown(Checks t) {
         t.due("a loss of 90", aged(1, 40, 0).pass(1), 90);
-        WineFutures less = estate(1, 40, 0);
+        LongEstate less = estate(1, 40, 0);
         less.taste(0, 0);
         t.due("a loss of 89.6", less.pass(1), 89);
-        WineFutures close = aged(1, 10, 12);
+        LongEstate close = aged(1, 10, 12);
         t.dueRow("wine", barrels(close, 0), 1999);
         t.due("a loss of 19.99", close.pass(1), 19);
-        WineFutures x = estate(2, 0, 1);
+        LongEstate x = estate(2, 0, 1);
         x.set(0, 2);
         t.due("50 times 98 by 100", x.lotOf(0, 4), 49);
         x.set(0, 3);
@@ -50,7 +50,7 @@ public final class LotBoundaries extends EstateTests {
     private static void caseOf90(Checks t) {
         int[][] lots = {{31, 58, 89, 0}, {32, 55, 90, 1}, {24, 59, 179, 1}, {50, 27, 180, 2}};
         for (int[] lot : lots) {
-            WineFutures x = aged(1, lot[0], lot[1]);
+            LongEstate x = aged(1, lot[0], lot[1]);
             String name = "with " + lot[2];
             t.due("wine", x.lotOf(0, 2), lot[2]);
             t.due("cases " + name, x.lotOf(0, 3), lot[3]);
@@ -67,7 +67,7 @@ public final class LotBoundaries extends EstateTests {
     }
 
     private static void monthsFrom0(Checks t) {
-        WineFutures x = new WineFutures();
+        LongEstate x = new LongEstate();
         t.due("at first", x.count(2), 0);
         x.lot(1, 0);
         x.buyer();
@@ -79,7 +79,7 @@ public final class LotBoundaries extends EstateTests {
     }
 
     private static void sixLots(Checks t) {
-        WineFutures x = new WineFutures();
+        LongEstate x = new LongEstate();
         for (int i = 0; i < 6; i++) {
             t.due("ahead of lot " + i, x.lotOf(i, 1), INVALID);
             t.due("lot " + i, x.lot(i + 1, 10 * i), i);
@@ -103,7 +103,7 @@ public final class LotBoundaries extends EstateTests {
     }
 
     private static void twelveBarrels(Checks t) {
-        WineFutures x = new WineFutures();
+        LongEstate x = new LongEstate();
         refused(t, x, "no barrel", INVALID, () -> x.lot(0, 10));
         t.due("one barrel", x.lot(1, 10), 0);
         t.dueRow("of lot 0", barrels(x, 0), 2250);
@@ -119,7 +119,7 @@ public final class LotBoundaries extends EstateTests {
     }
 
     private static void rates(Checks t) {
-        WineFutures x = new WineFutures();
+        LongEstate x = new LongEstate();
         refused(t, x, "rate -1", INVALID, () -> x.lot(1, -1));
         refused(t, x, "rate 51", INVALID, () -> x.lot(1, 51));
         t.due("rate 0", x.lot(1, 0), 0);
@@ -132,45 +132,45 @@ public final class LotBoundaries extends EstateTests {
 
     private static void loses(Checks t) {
         t.due("2250 times 50", aged(1, 50, 0).pass(1), 112);
-        WineFutures one = aged(1, 50, 52);
+        LongEstate one = aged(1, 50, 52);
         t.dueRow("20 with the rate 50", barrels(one, 0), 20);
         t.due("20 times 50 is 1000", one.pass(1), 2);
         t.due("18 times 50 is 900", one.pass(1), 0);
-        WineFutures none = aged(1, 49, 54);
+        LongEstate none = aged(1, 49, 54);
         t.dueRow("19 with the rate 49", barrels(none, 0), 19);
         t.due("19 times 49 is 931", none.pass(60), 0);
         t.dueRow("19 stays", barrels(none, 0), 19);
-        WineFutures edge = aged(1, 48, 55);
+        LongEstate edge = aged(1, 48, 55);
         t.dueRow("20 with the rate 48", barrels(edge, 0), 20);
         t.due("20 times 48 is 960", edge.pass(60), 0);
-        WineFutures all = aged(12, 50, 0);
+        LongEstate all = aged(12, 50, 0);
         t.due("12 barrels, each rounded for itself", all.pass(1), 12 * 112);
         t.due("lost so far", all.count(5), 12 * 112);
     }
 
     private static void losesTwice(Checks t) {
-        WineFutures above = estate(1, 43, 0);
+        LongEstate above = estate(1, 43, 0);
         above.taste(0, 0);
         above.pass(5);
         t.dueRow("1800", barrels(above, 0), 1800);
         t.due("1800 times 43 by 1000 once", above.pass(1), 77);
-        WineFutures below = aged(1, 44, 5);
+        LongEstate below = aged(1, 44, 5);
         t.dueRow("1799", barrels(below, 0), 1799);
         t.due("79 twice", below.pass(1), 158);
-        WineFutures rounded = aged(1, 7, 33);
+        LongEstate rounded = aged(1, 7, 33);
         t.dueRow("1799 with the rate 7", barrels(rounded, 0), 1799);
         t.due("12.593 is rounded ahead of being doubled", rounded.pass(1), 24);
-        WineFutures both = aged(2, 40, 5);
+        LongEstate both = aged(2, 40, 5);
         tasteOften(both, 0, 4);
         t.dueRow("one is below", barrels(both, 0), 1797, 1837);
         t.due("71 twice and 73 once", both.pass(1), 142 + 73);
         t.dueRow("each for itself", barrels(both, 0), 1655, 1764);
-        WineFutures foretold = aged(1, 44, 5);
+        LongEstate foretold = aged(1, 44, 5);
         t.due("cases foretold: 1641 by 90", foretold.cases(0, 1), 18);
     }
 
     private static void leftOut(Checks t) {
-        WineFutures first = aged(12, 48, 55);
+        LongEstate first = aged(12, 48, 55);
         t.due("20 in each of 12", first.lotOf(0, 2), 240);
         first.taste(0, 1);
         t.due("10 left: it stays", first.lotOf(0, 0), 12);
@@ -193,7 +193,7 @@ public final class LotBoundaries extends EstateTests {
     }
 
     private static void middleLeftOut(Checks t) {
-        WineFutures x = estate(4, 50, 0);
+        LongEstate x = estate(4, 50, 0);
         tasteOften(x, 0, 2);
         x.pass(52);
         t.dueRow("four", barrels(x, 0), 21, 20, 20, 20);
@@ -210,7 +210,7 @@ public final class LotBoundaries extends EstateTests {
     }
 
     private static void openOrBottled(Checks t) {
-        WineFutures x = estate(3, 0, 1);
+        LongEstate x = estate(3, 0, 1);
         t.due("open", x.lotOf(0, 8), 0);
         t.due("barrels", x.lotOf(0, 0), 3);
         t.due("wine in open lots", x.count(4), 6750);
@@ -226,41 +226,41 @@ public final class LotBoundaries extends EstateTests {
     }
 
     private static void lessThanFull(Checks t) {
-        WineFutures full = estate(12, 0, 0);
+        LongEstate full = estate(12, 0, 0);
         refused(t, full, "all are full", NOT_POSSIBLE, () -> full.top(0));
         t.due("topping of full ones", full.topping(0), NOT_POSSIBLE);
-        WineFutures last = estate(3, 0, 0);
+        LongEstate last = estate(3, 0, 0);
         last.taste(0, 1);
         t.due("the first one has less", last.top(0), 3);
         t.dueRow("out of the last one", barrels(last, 0), 2250, 2250, 2240);
         refused(t, last, "the last one alone has less", NOT_POSSIBLE, () -> last.top(0));
-        WineFutures little = aged(2, 1, 1);
+        LongEstate little = aged(2, 1, 1);
         t.dueRow("2 are missing", barrels(little, 0), 2248, 2248);
         t.due("top(0)", little.top(0), 2);
         t.dueRow("2 are poured", barrels(little, 0), 2250, 2246);
-        WineFutures one = aged(1, 50, 1);
+        LongEstate one = aged(1, 50, 1);
         refused(t, one, "one barrel alone", NOT_POSSIBLE, () -> one.top(0));
-        WineFutures none = aged(1, 48, 55);
+        LongEstate none = aged(1, 48, 55);
         tasteOften(none, 0, 2);
         t.due("no barrel", none.lotOf(0, 0), 0);
         refused(t, none, "without a barrel", NOT_POSSIBLE, () -> none.top(0));
-        WineFutures three = aged(3, 1, 1);
+        LongEstate three = aged(3, 1, 1);
         t.due("top(0) of three", three.top(0), 3);
         t.dueRow("the first ones first", barrels(three, 0), 2250, 2250, 2244);
     }
 
     private static void untilFullOrNone(Checks t) {
-        WineFutures exact = aged(2, 13, 36);
+        LongEstate exact = aged(2, 13, 36);
         t.dueRow("just what is missing", barrels(exact, 0), 1125, 1125);
         t.due("top(0)", exact.top(0), 1);
         t.dueRow("full, and none in the last one", barrels(exact, 0), 2250);
         refused(t, exact, "again", NOT_POSSIBLE, () -> exact.top(0));
-        WineFutures more = aged(2, 42, 11);
+        LongEstate more = aged(2, 42, 11);
         t.dueRow("one more each", barrels(more, 0), 1126, 1126);
         t.due("top(0) of more", more.top(0), 2);
         t.dueRow("2 are left", barrels(more, 0), 2250, 2);
         refused(t, more, "more, again", NOT_POSSIBLE, () -> more.top(0));
-        WineFutures less = aged(2, 21, 22);
+        LongEstate less = aged(2, 21, 22);
         t.dueRow("one less each", barrels(less, 0), 1124, 1124);
         t.due("top(0) of less", less.top(0), 1);
         t.dueRow("2 are missing", barrels(less, 0), 2248);
@@ -268,35 +268,35 @@ public final class LotBoundaries extends EstateTests {
     }
 
     private static void goesOn(Checks t) {
-        WineFutures three = aged(3, 11, 62);
+        LongEstate three = aged(3, 11, 62);
         t.dueRow("three thirds", barrels(three, 0), 750, 750, 750);
         t.due("top(0) of three thirds", three.top(0), 1);
         t.dueRow("in one", barrels(three, 0), 2250);
-        WineFutures more = aged(3, 41, 16);
+        LongEstate more = aged(3, 41, 16);
         t.dueRow("one more each", barrels(more, 0), 751, 751, 751);
         t.due("top(0) of more", more.top(0), 2);
         t.dueRow("3 are left", barrels(more, 0), 2250, 3);
-        WineFutures twelve = aged(12, 11, 62);
+        LongEstate twelve = aged(12, 11, 62);
         t.due("top(0) of twelve thirds", twelve.top(0), 4);
         t.dueRow("in four", barrels(twelve, 0), 2250, 2250, 2250, 2250);
         t.due("no wine is lost", twelve.lotOf(0, 2), 9000);
-        WineFutures little = aged(12, 49, 54);
+        LongEstate little = aged(12, 49, 54);
         t.due("top(0) of 19 in each", little.top(0), 1);
         t.dueRow("all in the first one", barrels(little, 0), 228);
     }
 
     private static void atLeast10(Checks t) {
-        WineFutures ten = aged(1, 48, 55);
+        LongEstate ten = aged(1, 48, 55);
         ten.taste(0, 1);
         t.dueRow("10", barrels(ten, 0), 10);
         t.due("taste of 10", ten.taste(0, 1), 10);
         t.due("all is taken", ten.lotOf(0, 2), 0);
         refused(t, ten, "no barrel has wine", NOT_POSSIBLE, () -> ten.taste(0, 1));
-        WineFutures nine = aged(1, 49, 54);
+        LongEstate nine = aged(1, 49, 54);
         nine.taste(0, 1);
         t.dueRow("9", barrels(nine, 0), 9);
         refused(t, nine, "taste of 9", NOT_POSSIBLE, () -> nine.taste(0, 1));
-        WineFutures two = aged(2, 49, 54);
+        LongEstate two = aged(2, 49, 54);
         two.taste(0, 1);
         t.dueRow("the first one has 9", barrels(two, 0), 9, 19);
         t.due("the second one", two.taste(0, 1), 10);
@@ -305,7 +305,7 @@ public final class LotBoundaries extends EstateTests {
     }
 
     private static void scores(Checks t) {
-        WineFutures x = estate(1, 0, 0);
+        LongEstate x = estate(1, 0, 0);
         refused(t, x, "-1", INVALID, () -> x.taste(0, -1));
         refused(t, x, "101", INVALID, () -> x.taste(0, 101));
         t.due("0", x.taste(0, 0), 10);
@@ -316,14 +316,14 @@ public final class LotBoundaries extends EstateTests {
     private static void quotes(Checks t) {
         int[][] rows = {{0, 10}, {9, 10}, {10, 11}, {14, 11}, {15, 12}, {99, 108}, {100, 110}};
         for (int[] row : rows) {
-            WineFutures x = estate(1, 0, 0);
+            LongEstate x = estate(1, 0, 0);
             t.due("without a tasting", x.lotOf(0, 6), 10);
             t.due("the score " + row[0], x.taste(0, row[0]), row[1]);
             t.due("the quote then", x.lotOf(0, 6), row[1]);
             x.undo();
             t.due("the tasting undone", x.lotOf(0, 6), 10);
         }
-        WineFutures mean = estate(1, 0, 0);
+        LongEstate mean = estate(1, 0, 0);
         mean.taste(0, 10);
         t.due("a mean of 9.5 counts as 9", mean.taste(0, 9), 10);
         t.due("a mean of 10 again", mean.taste(0, 11), 11);
@@ -332,18 +332,18 @@ public final class LotBoundaries extends EstateTests {
     }
 
     private static void allTogether(Checks t) {
-        WineFutures x = aged(2, 1, 5);
+        LongEstate x = aged(2, 1, 5);
         t.dueRow("24 cases and 80 each", barrels(x, 0), 2240, 2240);
         t.due("49 together", x.lotOf(0, 3), 49);
         t.due("cases(0, 0)", x.cases(0, 0), 49);
         x.bottle(0);
         t.due("bottled together", x.lotOf(0, 3), 49);
-        WineFutures little = aged(12, 49, 54);
+        LongEstate little = aged(12, 49, 54);
         t.due("12 of 19 are 228", little.lotOf(0, 3), 2);
     }
 
     private static void expected(Checks t) {
-        WineFutures x = new WineFutures();
+        LongEstate x = new LongEstate();
         x.lot(2, 40);
         t.due("23 behind 12 months, times 90 by 100", x.lotOf(0, 4), 20);
         x.set(0, 0);
@@ -357,7 +357,7 @@ public final class LotBoundaries extends EstateTests {
         t.due("setting 1 is 0", x.lotOf(0, 4), 50);
         x.set(1, 1);
         t.due("setting 1 is 1", x.lotOf(0, 4), 48);
-        WineFutures far = new WineFutures();
+        LongEstate far = new LongEstate();
         far.lot(12, 10);
         far.set(0, 0);
         far.set(1, 35);
@@ -369,7 +369,7 @@ public final class LotBoundaries extends EstateTests {
     }
 
     private static void settings(Checks t) {
-        WineFutures x = new WineFutures();
+        LongEstate x = new LongEstate();
         t.due("setting 0 at first", x.count(20), 10);
         t.due("setting 1 at first", x.count(21), 12);
         refused(t, x, "setting 0 to -1", INVALID, () -> x.set(0, -1));

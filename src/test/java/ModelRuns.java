@@ -4,6 +4,7 @@ import java.util.Random;
 public final class ModelRuns {
     private static final int RUNS = 1500;
     private static final int MOST_CALLS = 512;
+    private static final int MOST_CALLS_OF_A_TEXT = 112;
     private static final int MOST_FAULTS = 10;
     private static final int[] ODD = {-1, -2, 1000, 1001, Integer.MIN_VALUE, Integer.MAX_VALUE};
 
@@ -38,7 +39,7 @@ public final class ModelRuns {
 
     private boolean run() {
         begin();
-        while (!wrong && callCount < MOST_CALLS - 30) {
+        while (!wrong && callCount < MOST_CALLS) {
             int kind = random.nextInt(100);
             if (kind < 45) {
                 change();
@@ -46,7 +47,7 @@ public final class ModelRuns {
                 question();
             } else if (kind < 94) {
                 same("undo()", x.undo(), model.undo());
-            } else {
+            } else if (callCount < MOST_CALLS - MOST_CALLS_OF_A_TEXT) {
                 text();
             }
         }
@@ -169,7 +170,7 @@ public final class ModelRuns {
             same("clearText()", x.clearText(), model.clearText());
         }
         int orders = random.nextInt(3);
-        for (int i = 0; i < orders && callCount < MOST_CALLS - 40; i++) {
+        for (int i = 0; i < orders; i++) {
             typeAll(order());
         }
         int what = number(0, 2);

@@ -52,7 +52,7 @@ public final class PromiseTests extends EstateTests {
     }
 
     private static void newObject(Checks t) {
-        WineFutures x = new WineFutures();
+        LongEstate x = new LongEstate();
         for (int what = 0; what <= 11; what++) {
             t.due("count(" + what + ")", x.count(what), 0);
         }
@@ -64,7 +64,7 @@ public final class PromiseTests extends EstateTests {
         t.due("entry(0, 0)", x.entry(0, 0), NOT_FOUND);
         t.due("fault(0)", x.fault(0), NOT_FOUND);
         t.due("undo()", x.undo(), NOT_POSSIBLE);
-        WineFutures other = new WineFutures();
+        LongEstate other = new LongEstate();
         other.lot(1, 1);
         other.buyer();
         other.type('x');
@@ -75,7 +75,7 @@ public final class PromiseTests extends EstateTests {
     }
 
     private static void lot(Checks t) {
-        WineFutures x = new WineFutures();
+        LongEstate x = new LongEstate();
         refused(t, x, "lot(0, 0)", INVALID, () -> x.lot(0, 0));
         refused(t, x, "lot(13, 0)", INVALID, () -> x.lot(13, 0));
         refused(t, x, "lot(1, -1)", INVALID, () -> x.lot(1, -1));
@@ -104,7 +104,7 @@ public final class PromiseTests extends EstateTests {
     }
 
     private static void taste(Checks t) {
-        WineFutures x = new WineFutures();
+        LongEstate x = new LongEstate();
         refused(t, x, "taste without a lot", INVALID, () -> x.taste(0, 50));
         x.lot(2, 0);
         refused(t, x, "taste(0, -1)", INVALID, () -> x.taste(0, -1));
@@ -118,18 +118,18 @@ public final class PromiseTests extends EstateTests {
         t.due("tastings", x.lotOf(0, 7), 3);
         t.due("lost", x.count(5), 0);
         t.due("a tasting is no entry", x.count(9), 0);
-        WineFutures full = estate(1, 0, 0);
+        LongEstate full = estate(1, 0, 0);
         t.due("taste(0, 100) first", full.taste(0, 100), 110);
         meanOfScores(t);
         emptyBarrels(t);
-        WineFutures bottled = estate(1, 0, 0);
+        LongEstate bottled = estate(1, 0, 0);
         bottled.bottle(0);
         refused(t, bottled, "taste of a bottled one", NOT_POSSIBLE, () -> bottled.taste(0, 50));
         refused(t, bottled, "wrong taste of a bottled one", INVALID, () -> bottled.taste(0, 101));
     }
 
     private static void meanOfScores(Checks t) {
-        WineFutures x = estate(1, 0, 0);
+        LongEstate x = estate(1, 0, 0);
         t.due("80", x.taste(0, 80), 74);
         t.due("80, 91: mean 85", x.taste(0, 91), 82);
         t.due("80, 91, 99: mean 90", x.taste(0, 99), 91);
@@ -137,7 +137,7 @@ public final class PromiseTests extends EstateTests {
     }
 
     private static void emptyBarrels(Checks t) {
-        WineFutures x = estate(2, 0, 0);
+        LongEstate x = estate(2, 0, 0);
         tasteOften(x, 0, 224);
         t.dueRow("10 left", barrels(x, 0), 10, 2250);
         x.taste(0, 50);
@@ -149,7 +149,7 @@ public final class PromiseTests extends EstateTests {
         refused(t, x, "taste without wine", NOT_POSSIBLE, () -> x.taste(0, 50));
         t.due("pass without wine", x.pass(1), 0);
         t.due("bottle without wine", x.bottle(0), 0);
-        WineFutures little = new WineFutures();
+        LongEstate little = new LongEstate();
         little.lot(2, 50);
         little.pass(60);
         little.pass(60);
@@ -163,7 +163,7 @@ public final class PromiseTests extends EstateTests {
     }
 
     private static void top(Checks t) {
-        WineFutures x = new WineFutures();
+        LongEstate x = new LongEstate();
         refused(t, x, "top without a lot", INVALID, () -> x.top(0));
         x.lot(3, 0);
         refused(t, x, "top of full ones", NOT_POSSIBLE, () -> x.top(0));
@@ -176,19 +176,19 @@ public final class PromiseTests extends EstateTests {
         x.lot(1, 50);
         x.pass(1);
         refused(t, x, "top of one barrel", NOT_POSSIBLE, () -> x.top(1));
-        WineFutures four = estate(4, 50, 0);
+        LongEstate four = estate(4, 50, 0);
         four.pass(6);
         t.dueRow("before", barrels(four, 0), 1570, 1570, 1570, 1570);
         t.due("top(0) of four", four.top(0), 3);
         t.dueRow("after", barrels(four, 0), 2250, 2250, 1780);
         t.due("no wine is lost by it", four.count(5), 2720);
-        WineFutures twelve = estate(12, 50, 0);
+        LongEstate twelve = estate(12, 50, 0);
         twelve.pass(60);
         twelve.pass(60);
         t.due("top(0) of twelve", twelve.top(0), 1);
         t.dueRow("in one", barrels(twelve, 0), 216);
         exactlyEmpty(t);
-        WineFutures bottled = estate(2, 50, 0);
+        LongEstate bottled = estate(2, 50, 0);
         bottled.pass(1);
         bottled.bottle(0);
         refused(t, bottled, "top of a bottled one", NOT_POSSIBLE, () -> bottled.top(0));
@@ -196,7 +196,7 @@ public final class PromiseTests extends EstateTests {
 
     /** The last barrel has just what the first one wants. */
     private static void exactlyEmpty(Checks t) {
-        WineFutures x = estate(3, 0, 0);
+        LongEstate x = estate(3, 0, 0);
         for (int round = 0; round < 2; round++) {
             tasteOften(x, 0, 112);
             x.top(0);
@@ -211,7 +211,7 @@ public final class PromiseTests extends EstateTests {
     }
 
     private static void pass(Checks t) {
-        WineFutures x = new WineFutures();
+        LongEstate x = new LongEstate();
         refused(t, x, "pass(0)", INVALID, () -> x.pass(0));
         refused(t, x, "pass(-1)", INVALID, () -> x.pass(-1));
         refused(t, x, "pass(61)", INVALID, () -> x.pass(61));
@@ -232,7 +232,7 @@ public final class PromiseTests extends EstateTests {
         x.bottle(0);
         t.due("a bottled one loses nothing", x.pass(1), 48);
         monthLimit(t);
-        WineFutures border = estate(1, 0, 0);
+        LongEstate border = estate(1, 0, 0);
         tasteOften(border, 0, 45);
         t.dueRow("1800", barrels(border, 0), 1800);
         borderOfTwice(t);
@@ -240,14 +240,14 @@ public final class PromiseTests extends EstateTests {
 
     /** 1800 loses once, less loses twice. */
     private static void borderOfTwice(Checks t) {
-        WineFutures x = estate(1, 10, 0);
+        LongEstate x = estate(1, 10, 0);
         tasteOften(x, 0, 45);
         t.due("1800 loses", x.pass(1), 18);
         t.due("1782 loses", x.pass(1), 34);
-        WineFutures less = estate(1, 10, 0);
+        LongEstate less = estate(1, 10, 0);
         tasteOften(less, 0, 46);
         t.due("1790 loses", less.pass(1), 34);
-        WineFutures close = estate(1, 1, 0);
+        LongEstate close = estate(1, 1, 0);
         tasteOften(close, 0, 25);
         t.due("2000 loses", close.pass(1), 2);
         t.due("1998 loses", close.pass(1), 1);
@@ -258,7 +258,7 @@ public final class PromiseTests extends EstateTests {
     }
 
     private static void monthLimit(Checks t) {
-        WineFutures x = estate(1, 1, 0);
+        LongEstate x = estate(1, 1, 0);
         for (int i = 0; i < 16; i++) {
             x.pass(60);
         }
@@ -273,7 +273,7 @@ public final class PromiseTests extends EstateTests {
     }
 
     private static void bottle(Checks t) {
-        WineFutures x = estate(2, 50, 3);
+        LongEstate x = estate(2, 50, 3);
         refused(t, x, "bottle(-1)", INVALID, () -> x.bottle(-1));
         refused(t, x, "bottle(1)", INVALID, () -> x.bottle(1));
         x.sell(0, 0, 30, 20);
@@ -303,14 +303,14 @@ public final class PromiseTests extends EstateTests {
     }
 
     private static void bottleWithEnough(Checks t) {
-        WineFutures x = estate(2, 0, 2);
+        LongEstate x = estate(2, 0, 2);
         x.sell(0, 0, 24, 7);
         x.sell(0, 1, 26, 8);
         t.due("just enough", x.bottle(0), 0);
         t.due("held by 0", x.holding(0, 0, 0), 24);
         t.due("held by 1", x.holding(1, 0, 0), 26);
         t.due("no entry", x.count(9), 2);
-        WineFutures less = estate(2, 0, 2);
+        LongEstate less = estate(2, 0, 2);
         less.sell(0, 0, 24, 7);
         less.sell(0, 1, 26, 8);
         less.taste(0, 1);
@@ -321,7 +321,7 @@ public final class PromiseTests extends EstateTests {
     }
 
     private static void bottleWithoutCases(Checks t) {
-        WineFutures x = estate(1, 50, 2);
+        LongEstate x = estate(1, 50, 2);
         x.sell(0, 1, 25, 999);
         x.pass(60);
         t.due("wine", x.lotOf(0, 2), 18);
@@ -336,7 +336,7 @@ public final class PromiseTests extends EstateTests {
     }
 
     private static void buyer(Checks t) {
-        WineFutures x = new WineFutures();
+        LongEstate x = new LongEstate();
         for (int i = 0; i < 6; i++) {
             t.due("buyer()", x.buyer(), i);
             t.due("its account", x.account(i), 0);
@@ -350,7 +350,7 @@ public final class PromiseTests extends EstateTests {
     }
 
     private static void sell(Checks t) {
-        WineFutures x = estate(2, 40, 2);
+        LongEstate x = estate(2, 40, 2);
         x.set(0, 10);
         x.set(1, 12);
         refused(t, x, "sell(1, ..)", INVALID, () -> x.sell(1, 0, 1, 1));
@@ -378,7 +378,7 @@ public final class PromiseTests extends EstateTests {
         x.bottle(0);
         refused(t, x, "of a bottled one", NOT_POSSIBLE, () -> x.sell(0, 0, 1, 1));
         refused(t, x, "wrong, of a bottled one", INVALID, () -> x.sell(0, 0, 1, 1000));
-        WineFutures two = estate(12, 0, 1);
+        LongEstate two = estate(12, 0, 1);
         two.lot(1, 0);
         t.due("300 cases", two.sell(0, 0, 300, 999), 300);
         t.due("of another lot", two.sell(1, 0, 25, 1), 25);
@@ -386,7 +386,7 @@ public final class PromiseTests extends EstateTests {
     }
 
     private static void trade(Checks t) {
-        WineFutures x = estate(2, 0, 3);
+        LongEstate x = estate(2, 0, 3);
         x.sell(0, 0, 7, 10);
         x.sell(0, 1, 5, 4);
         refused(t, x, "lot 1", INVALID, () -> x.trade(1, 0, 1, 1, 1));
@@ -420,7 +420,7 @@ public final class PromiseTests extends EstateTests {
         x.bottle(0);
         t.due("of a bottled one", x.trade(0, 0, 2, 1, 1), 4);
         t.due("accounts together", x.count(3), 0);
-        WineFutures many = estate(12, 0, 2);
+        LongEstate many = estate(12, 0, 2);
         many.sell(0, 0, 300, 999);
         t.due("300 cases", many.trade(0, 0, 1, 300, 999), 300);
         t.due("back", many.trade(0, 1, 0, 299, 999), 299);
@@ -428,7 +428,7 @@ public final class PromiseTests extends EstateTests {
     }
 
     private static void redeem(Checks t) {
-        WineFutures x = estate(2, 0, 2);
+        LongEstate x = estate(2, 0, 2);
         x.sell(0, 0, 7, 10);
         x.trade(0, 0, 1, 3, 33);
         refused(t, x, "of an open one", NOT_POSSIBLE, () -> x.redeem(0, 0, 1));
@@ -459,7 +459,7 @@ public final class PromiseTests extends EstateTests {
         t.due("accounts stay", x.account(0), -70 + 99);
         t.due("estate stays", x.account(-1), 70);
         t.due("cases when it was bottled", x.lotOf(0, 4), 50);
-        WineFutures floor = estate(1, 0, 1);
+        LongEstate floor = estate(1, 0, 1);
         floor.sell(0, 0, 1, 5);
         floor.sell(0, 0, 2, 1);
         floor.bottle(0);
@@ -470,7 +470,7 @@ public final class PromiseTests extends EstateTests {
     }
 
     private static void set(Checks t) {
-        WineFutures x = new WineFutures();
+        LongEstate x = new LongEstate();
         refused(t, x, "set(-1, 0)", INVALID, () -> x.set(-1, 0));
         refused(t, x, "set(2, 0)", INVALID, () -> x.set(2, 0));
         refused(t, x, "set(0, -1)", INVALID, () -> x.set(0, -1));
@@ -490,7 +490,7 @@ public final class PromiseTests extends EstateTests {
     }
 
     private static void lotOf(Checks t) {
-        WineFutures x = new WineFutures();
+        LongEstate x = new LongEstate();
         t.due("without a lot", x.lotOf(0, 0), INVALID);
         x.lot(3, 50);
         x.lot(2, 20);
@@ -525,7 +525,7 @@ public final class PromiseTests extends EstateTests {
     }
 
     private static void barrel(Checks t) {
-        WineFutures x = new WineFutures();
+        LongEstate x = new LongEstate();
         t.due("without a lot", x.barrel(0, 0), INVALID);
         x.lot(2, 10);
         x.lot(12, 0);
@@ -549,7 +549,7 @@ public final class PromiseTests extends EstateTests {
     }
 
     private static void holding(Checks t) {
-        WineFutures x = estate(12, 0, 2);
+        LongEstate x = estate(12, 0, 2);
         t.due("none", x.holding(0, 0, 0), 0);
         t.due("nothing paid", x.holding(0, 0, 1), 0);
         t.due("none delivered", x.holding(0, 0, 2), 0);
@@ -576,10 +576,10 @@ public final class PromiseTests extends EstateTests {
     }
 
     private static void smallMeans(Checks t) {
-        WineFutures x = estate(12, 0, 1);
+        LongEstate x = estate(12, 0, 1);
         x.sell(0, 0, 1, 1);
         t.due("mean 1", x.holding(0, 0, 3), 0x3f800000);
-        WineFutures y = estate(12, 0, 1);
+        LongEstate y = estate(12, 0, 1);
         y.sell(0, 0, 3, 2);
         t.due("mean 2", y.holding(0, 0, 3), 0x40000000);
         y.sell(0, 0, 1, 999);
@@ -591,7 +591,7 @@ public final class PromiseTests extends EstateTests {
     }
 
     private static void account(Checks t) {
-        WineFutures x = new WineFutures();
+        LongEstate x = new LongEstate();
         t.due("account(-1)", x.account(-1), 0);
         t.due("account(0)", x.account(0), INVALID);
         t.due("account(-2)", x.account(-2), INVALID);
@@ -614,7 +614,7 @@ public final class PromiseTests extends EstateTests {
     }
 
     private static void entry(Checks t) {
-        WineFutures x = estate(2, 0, 2);
+        LongEstate x = estate(2, 0, 2);
         t.due("entry(0, 0)", x.entry(0, 0), NOT_FOUND);
         t.due("entry(-1, 0)", x.entry(-1, 0), INVALID);
         t.due("entry(0, -1)", x.entry(0, -1), INVALID);
@@ -649,7 +649,7 @@ public final class PromiseTests extends EstateTests {
     }
 
     private static void entriesOfAnotherLot(Checks t) {
-        WineFutures x = estate(1, 0, 2);
+        LongEstate x = estate(1, 0, 2);
         x.lot(1, 50);
         x.sell(1, 0, 25, 4);
         t.dueRow("sale of lot 1", entryRow(x, 0), 0, 1, 0, 25, 4, NOT_FOUND);
@@ -664,7 +664,7 @@ public final class PromiseTests extends EstateTests {
     }
 
     private static void cases(Checks t) {
-        WineFutures x = new WineFutures();
+        LongEstate x = new LongEstate();
         t.due("without a lot", x.cases(0, 0), INVALID);
         x.lot(2, 40);
         x.lot(1, 0);
@@ -682,7 +682,7 @@ public final class PromiseTests extends EstateTests {
         x.bottle(0);
         t.due("of a bottled one", x.cases(0, 0), NOT_POSSIBLE);
         t.due("wrong, of a bottled one", x.cases(0, 121), INVALID);
-        WineFutures far = estate(1, 50, 0);
+        LongEstate far = estate(1, 50, 0);
         for (int i = 0; i < 17; i++) {
             far.pass(i < 16 ? 60 : 39);
         }
@@ -690,7 +690,7 @@ public final class PromiseTests extends EstateTests {
     }
 
     private static void sellable(Checks t) {
-        WineFutures x = new WineFutures();
+        LongEstate x = new LongEstate();
         t.due("without a lot", x.sellable(0), INVALID);
         t.due("sellable(-1)", x.sellable(-1), INVALID);
         x.lot(2, 40);
@@ -712,7 +712,7 @@ public final class PromiseTests extends EstateTests {
     }
 
     private static void deadline(Checks t) {
-        WineFutures x = estate(2, 40, 2);
+        LongEstate x = estate(2, 40, 2);
         t.due("deadline(1)", x.deadline(1), INVALID);
         t.due("deadline(-1)", x.deadline(-1), INVALID);
         t.due("none held", x.deadline(0), NOT_FOUND);
@@ -732,7 +732,7 @@ public final class PromiseTests extends EstateTests {
 
     /** 2250 loses 2 in a month with the rate 1, until it has less than 2000, then 1. */
     private static void lateDeadline(Checks t) {
-        WineFutures x = estate(1, 1, 1);
+        LongEstate x = estate(1, 1, 1);
         x.sell(0, 0, 23, 1);
         t.due("below 2070 behind 91 months", x.deadline(0), 91);
         x.undo();
@@ -747,7 +747,7 @@ public final class PromiseTests extends EstateTests {
     }
 
     private static void topping(Checks t) {
-        WineFutures x = new WineFutures();
+        LongEstate x = new LongEstate();
         t.due("without a lot", x.topping(0), INVALID);
         t.due("topping(-1)", x.topping(-1), INVALID);
         x.lot(3, 50);
@@ -771,7 +771,7 @@ public final class PromiseTests extends EstateTests {
 
     /** Of the two the last one has less than 1800 then, so that it loses twice. */
     private static void toppingThatLoses(Checks t) {
-        WineFutures x = estate(2, 50, 0);
+        LongEstate x = estate(2, 50, 0);
         x.pass(2);
         tasteOften(x, 0, 23);
         t.dueRow("before", barrels(x, 0), 1802, 2032);
@@ -780,7 +780,7 @@ public final class PromiseTests extends EstateTests {
     }
 
     private static void loser(Checks t) {
-        WineFutures x = estate(2, 40, 3);
+        LongEstate x = estate(2, 40, 3);
         t.due("none held", x.loser(0, 0), NOT_FOUND);
         t.due("loser(0, 2)", x.loser(0, 2), INVALID);
         t.due("loser(0, -1)", x.loser(0, -1), INVALID);
@@ -808,7 +808,7 @@ public final class PromiseTests extends EstateTests {
     }
 
     private static void count(Checks t) {
-        WineFutures x = estate(2, 50, 3);
+        LongEstate x = estate(2, 50, 3);
         x.lot(1, 0);
         x.sell(0, 0, 30, 3);
         x.sell(0, 1, 20, 4);
@@ -840,7 +840,7 @@ public final class PromiseTests extends EstateTests {
     }
 
     private static void undo(Checks t) {
-        WineFutures x = new WineFutures();
+        LongEstate x = new LongEstate();
         t.due("empty", x.undo(), NOT_POSSIBLE);
         String[] states = new String[7];
         states[0] = Checks.snapshot(x);
@@ -872,7 +872,7 @@ public final class PromiseTests extends EstateTests {
 
     /** Each kind of change is a state of its own, and taken back. */
     private static void everyChange(Checks t) {
-        WineFutures x = estate(2, 50, 2);
+        LongEstate x = estate(2, 50, 2);
         Call[] changes = {
             () -> x.lot(1, 1), () -> x.buyer(), () -> x.sell(0, 0, 50, 3), () -> x.taste(0, 44), () -> x.pass(2),
             () -> x.top(0), () -> x.trade(0, 0, 1, 2, 9), () -> x.set(0, 55), () -> x.bottle(0),
@@ -892,7 +892,7 @@ public final class PromiseTests extends EstateTests {
     }
 
     private static void type(Checks t) {
-        WineFutures x = new WineFutures();
+        LongEstate x = new LongEstate();
         refused(t, x, "type(31)", INVALID, () -> x.type(31));
         refused(t, x, "type(127)", INVALID, () -> x.type(127));
         refused(t, x, "type(-1)", INVALID, () -> x.type(-1));
@@ -912,7 +912,7 @@ public final class PromiseTests extends EstateTests {
     }
 
     private static void clearText(Checks t) {
-        WineFutures x = new WineFutures();
+        LongEstate x = new LongEstate();
         t.due("empty", x.clearText(), 0);
         Checks.typeAll(x, "m1;m2;x");
         t.due("7 characters", x.clearText(), 7);
@@ -928,7 +928,7 @@ public final class PromiseTests extends EstateTests {
     }
 
     private static void fault(Checks t) {
-        WineFutures x = new WineFutures();
+        LongEstate x = new LongEstate();
         t.due("fault(-1)", x.fault(-1), INVALID);
         t.due("fault(3)", x.fault(3), INVALID);
         t.due("empty", x.fault(0), NOT_FOUND);
@@ -941,7 +941,7 @@ public final class PromiseTests extends EstateTests {
         t.due("states", x.count(10), 2);
     }
 
-    private static void faultOf(Checks t, WineFutures x, String text, int position, int reason, int cause) {
+    private static void faultOf(Checks t, LongEstate x, String text, int position, int reason, int cause) {
         Checks.retype(x, text);
         t.due("position in " + text, x.fault(0), position);
         t.due("reason in " + text, x.fault(1), reason);
@@ -950,14 +950,14 @@ public final class PromiseTests extends EstateTests {
         refused(t, x, "play of " + text, NOT_POSSIBLE, () -> x.play());
     }
 
-    private static void noFault(Checks t, WineFutures x, String text) {
+    private static void noFault(Checks t, LongEstate x, String text) {
         Checks.retype(x, text);
         for (int what = 0; what <= 2; what++) {
             t.due("fault in " + text, x.fault(what), NOT_FOUND);
         }
     }
 
-    private static void formFaults(Checks t, WineFutures x) {
+    private static void formFaults(Checks t, LongEstate x) {
         String[] texts = {"x", ";", " m1;", "1", "l", "l,", "l1", "l1;", "l1,", "l1,;", "l1,2", "l1,2,", "l1234,1;",
             "l1,0001;", "L1,1;", "s0", "s0,0;", "s0,0,1;", "s0,0,1,", "s0,0,1,1", "s0,0,1,1,", "s0 ,0", "t0,", "t0,5",
             "m", "m;", "m1", "m1,", "m0001;", "m-1;", "b", "b;", "b0", "b0,", "b0 ;", "m1:", "m1/", "p1;"};
@@ -966,14 +966,14 @@ public final class PromiseTests extends EstateTests {
             1, 1, 2, 2, 4, 1, 1, 1, 2, 2, 2, 2, 2, 0};
         t.due("as many causes", causes.length, texts.length);
         for (int i = 0; i < texts.length; i++) {
-            faultOf(t, new WineFutures(), texts[i], 0, 1, causes[i]);
+            faultOf(t, new LongEstate(), texts[i], 0, 1, causes[i]);
         }
         faultOf(t, x, "m1;t0,50;m1", 9, 1, 2);
         faultOf(t, x, "m1; m1;", 3, 1, 0);
         faultOf(t, x, "m1;;", 3, 1, 0);
     }
 
-    private static void refusedOrders(Checks t, WineFutures x) {
+    private static void refusedOrders(Checks t, LongEstate x) {
         faultOf(t, x, "l0,0;", 0, 2, INVALID);
         faultOf(t, x, "l13,0;x", 0, 2, INVALID);
         faultOf(t, x, "m1;l1,51;", 3, 2, INVALID);
@@ -988,14 +988,14 @@ public final class PromiseTests extends EstateTests {
         faultOf(t, x, "s0,1,1,1;", 0, 2, INVALID);
         faultOf(t, x, "s0,0,0,1;", 0, 2, INVALID);
         faultOf(t, x, "l1,0;l1,0;l1,0;l1,0;l1,0;l1,0;", 25, 2, LIMIT);
-        WineFutures late = new WineFutures();
+        LongEstate late = new LongEstate();
         late.pass(60);
         late.pass(60);
         faultOf(t, late, "m60;m60;m60;m60;m60;m60;m60;m60;m60;m60;m60;m60;m60;m60;m60;", 56, 2, LIMIT);
     }
 
     private static void play(Checks t) {
-        WineFutures x = new WineFutures();
+        LongEstate x = new LongEstate();
         t.due("empty", x.play(), 0);
         t.due("a change", x.count(10), 1);
         x.buyer();
@@ -1003,7 +1003,7 @@ public final class PromiseTests extends EstateTests {
         t.due("5 orders", x.play(), 5);
         t.due("one change", x.count(10), 3);
         t.due("the text stays", x.count(11), 29);
-        WineFutures y = new WineFutures();
+        LongEstate y = new LongEstate();
         y.play();
         y.buyer();
         y.lot(2, 40);

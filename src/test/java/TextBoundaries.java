@@ -29,7 +29,7 @@ public final class TextBoundaries extends EstateTests {
     }
 
     private static void sixtyCharacters(Checks t) {
-        WineFutures x = new WineFutures();
+        LongEstate x = new LongEstate();
         t.due("initially", x.count(11), 0);
         t.due("no fault", x.fault(0), NOT_FOUND);
         Checks.typeAll(x, "m1;m1;m1;m1;m1;m1;m1;m1;m1;m1;m1;m1;m1;m1;m1;m1;m1;m1;m1;m");
@@ -45,7 +45,7 @@ public final class TextBoundaries extends EstateTests {
     }
 
     private static void forms(Checks t) {
-        WineFutures x = estate(2, 0, 1);
+        LongEstate x = estate(2, 0, 1);
         Checks.typeAll(x, "l3,7;s1,0,4,25;t1,90;m2;b0;");
         t.due("no fault", x.fault(0), NOT_FOUND);
         t.due("5 orders", x.play(), 5);
@@ -63,14 +63,14 @@ public final class TextBoundaries extends EstateTests {
             t.due("reason of " + text, x.fault(1), 1);
             refused(t, x, "play of " + text, NOT_POSSIBLE, () -> x.play());
         }
-        t.due("no other small letter", othersAreOrders(x), 0);
+        t.due("no other character", othersAreOrders(), 0);
     }
 
     /** How many characters begin an order with one number, but for m and b. */
-    private static int othersAreOrders(WineFutures x) {
+    private static int othersAreOrders() {
         int found = 0;
         for (int sign = 32; sign <= 126; sign++) {
-            x.clearText();
+            LongEstate x = new LongEstate();
             x.type(sign);
             Checks.typeAll(x, "1;");
             boolean known = sign == 'm' || sign == 'b';
@@ -83,7 +83,7 @@ public final class TextBoundaries extends EstateTests {
     }
 
     private static void digits(Checks t) {
-        WineFutures x = new WineFutures();
+        LongEstate x = new LongEstate();
         String[] texts = {"m1;", "m01;", "m001;", "m60;", "m060;", "l12,50;", "l012,050;", "l001,000;", "l1,0;"};
         for (String text : texts) {
             Checks.retype(x, text);
@@ -104,18 +104,17 @@ public final class TextBoundaries extends EstateTests {
         t.dueRow("999 is a number, but no months", faultRow(x), 0, 2, INVALID);
         Checks.retype(x, "m000;");
         t.dueRow("000 is a number, but no months", faultRow(x), 0, 2, INVALID);
-        WineFutures dear = estate(1, 0, 1);
+        LongEstate dear = estate(1, 0, 1);
         Checks.typeAll(dear, "s000,000,025,999;");
         t.due("a price of 999", dear.play(), 1);
         t.due("25 times 999", dear.account(0), -24975);
     }
 
     private static void positions(Checks t) {
-        WineFutures x = new WineFutures();
+        LongEstate x = new LongEstate();
         String ahead = "";
         for (int orders = 0; orders < 20; orders++) {
-            Checks.retype(x, ahead + "b0;");
-            t.dueRow("behind " + orders + " orders", faultRow(x), 3 * orders, 2, INVALID);
+            t.dueRow("behind " + orders + " orders", faultRow(typed(ahead + "b0;")), 3 * orders, 2, INVALID);
             ahead += "m1;";
         }
         Checks.retype(x, "m1;m1;m1;m1;m1;m1;m1;m1;m1;m1;m1;m1;m1;m1;m1;m1;m1;m01;m01;x");
@@ -132,7 +131,7 @@ public final class TextBoundaries extends EstateTests {
     }
 
     private static void reasons(Checks t) {
-        WineFutures x = estate(1, 0, 1);
+        LongEstate x = estate(1, 0, 1);
         Checks.typeAll(x, "b1");
         t.dueRow("without its \";\"", faultRow(x), 0, 1, 2);
         x.type(';');
@@ -154,62 +153,49 @@ public final class TextBoundaries extends EstateTests {
     }
 
     private static void breaksOff(Checks t) {
-        WineFutures x = new WineFutures();
         String[] orders = {"l1,2;", "l111,222;", "s1,2,3,4;", "s111,222,333,444;", "t1,2;", "t111,222;", "m1;", "m111;",
             "b1;", "b111;"};
         for (String order : orders) {
             for (int at = 0; at < order.length(); at++) {
                 String broken = order.substring(0, at) + "~" + order.substring(at + 1);
-                Checks.retype(x, broken);
-                t.dueRow(broken, faultRow(x), 0, 1, at);
-                Checks.retype(x, "m1;" + broken + "m1;");
-                t.dueRow("m1;" + broken + "m1;", faultRow(x), 3, 1, at);
+                t.dueRow(broken, faultRow(typed(broken)), 0, 1, at);
+                t.dueRow("m1;" + broken + "m1;", faultRow(typed("m1;" + broken + "m1;")), 3, 1, at);
             }
         }
         String[] fourDigits = {"l1111,2;", "l1,2222;", "s1111,2,3,4;", "s1,2222,3,4;", "s1,2,3333,4;", "s1,2,3,4444;",
             "t1111,2;", "t1,2222;", "m1111;", "b1111;"};
         int[] fourth = {4, 6, 4, 6, 8, 10, 4, 6, 4, 4};
         for (int i = 0; i < fourDigits.length; i++) {
-            Checks.retype(x, fourDigits[i]);
-            t.dueRow(fourDigits[i], faultRow(x), 0, 1, fourth[i]);
+            t.dueRow(fourDigits[i], faultRow(typed(fourDigits[i])), 0, 1, fourth[i]);
         }
-        everySign(t, x);
+        everySign(t);
     }
 
     /** Of all signs the digits, "," and ";" alone go on, each where it may stand. */
-    private static void everySign(Checks t, WineFutures x) {
-        for (int sign = 32; sign <= 126; sign++) {
+    private static void everySign(Checks t) {
+        for (char sign = 32; sign <= 126; sign++) {
             boolean digit = sign >= '0' && sign <= '9';
-            Checks.retype(x, "m");
-            x.type(sign);
-            t.dueRow("m and the sign " + sign, faultRow(x), 0, 1, digit ? 2 : 1);
-            Checks.retype(x, "l1");
-            x.type(sign);
-            t.dueRow("l1 and the sign " + sign, faultRow(x), 0, 1, digit || sign == ',' ? 3 : 2);
-            Checks.retype(x, "m1");
-            x.type(sign);
+            t.dueRow("m" + sign, faultRow(typed("m" + sign)), 0, 1, digit ? 2 : 1);
+            t.dueRow("l1" + sign, faultRow(typed("l1" + sign)), 0, 1, digit || sign == ',' ? 3 : 2);
             if (sign == ';') {
-                t.due("m1;", x.fault(0), NOT_FOUND);
+                t.due("m1;", typed("m1;").fault(0), NOT_FOUND);
             } else {
-                t.dueRow("m1 and the sign " + sign, faultRow(x), 0, 1, digit ? 3 : 2);
+                t.dueRow("m1" + sign, faultRow(typed("m1" + sign)), 0, 1, digit ? 3 : 2);
             }
         }
     }
 
     private static void endsTooEarly(Checks t) {
-        WineFutures x = new WineFutures();
         String[] orders = {"l1,2;", "l111,222;", "s1,2,3,4;", "s111,222,333,444;", "t1,2;", "t111,222;", "m1;", "m111;",
             "b1;", "b111;"};
         for (String order : orders) {
             for (int length = 1; length < order.length(); length++) {
                 String part = order.substring(0, length);
-                Checks.retype(x, part);
-                t.dueRow(part, faultRow(x), 0, 1, length);
-                Checks.retype(x, "m1;" + part);
-                t.dueRow("m1;" + part, faultRow(x), 3, 1, length);
+                t.dueRow(part, faultRow(typed(part)), 0, 1, length);
+                t.dueRow("m1;" + part, faultRow(typed("m1;" + part)), 3, 1, length);
             }
         }
-        Checks.retype(x, "m1;m1;m1;m1;m1;m1;m1;m1;m1;m1;m1;m1;m1;m1;m1;m1;m1;m1;m01;m1");
+        LongEstate x = typed("m1;m1;m1;m1;m1;m1;m1;m1;m1;m1;m1;m1;m1;m1;m1;m1;m1;m1;m01;m1");
         t.due("60 characters", x.count(11), 60);
         t.dueRow("where no character has room", faultRow(x), 58, 1, 2);
         refused(t, x, "its \";\"", LIMIT, () -> x.type(';'));
@@ -219,18 +205,18 @@ public final class TextBoundaries extends EstateTests {
         String[] texts = {"l0,0;", "l13,0;", "l1,51;", "t1,0;", "t0,101;", "m0;", "m61;", "b1;", "s1,0,1,1;",
             "s0,1,1,1;", "s0,0,0,1;"};
         for (String text : texts) {
-            WineFutures x = estate(1, 0, 1);
+            LongEstate x = estate(1, 0, 1);
             Checks.typeAll(x, text);
             t.dueRow(text, faultRow(x), 0, 2, INVALID);
         }
         String[] possible = {"l1,0;", "l12,50;", "t0,0;", "t0,100;", "m1;", "m60;", "b0;", "s0,0,1,0;", "s0,0,25,999;"};
         for (String text : possible) {
-            WineFutures x = estate(1, 0, 1);
+            LongEstate x = estate(1, 0, 1);
             Checks.typeAll(x, text);
             t.dueRow(text, faultRow(x), NOT_FOUND, NOT_FOUND, NOT_FOUND);
             t.due("play of " + text, x.play(), 1);
         }
-        WineFutures x = estate(1, 0, 1);
+        LongEstate x = estate(1, 0, 1);
         Checks.typeAll(x, "s0,0,26,1;");
         t.dueRow("too few are expected", faultRow(x), 0, 2, NOT_POSSIBLE);
         Checks.retype(x, "b0;t0,5;");
@@ -243,7 +229,7 @@ public final class TextBoundaries extends EstateTests {
         t.due("6 lots", x.fault(0), NOT_FOUND);
         Checks.retype(x, "l1,0;l1,0;l1,0;l1,0;l1,0;l1,0;");
         t.dueRow("7 lots", faultRow(x), 25, 2, LIMIT);
-        WineFutures late = new WineFutures();
+        LongEstate late = new LongEstate();
         passMany(late, 939);
         Checks.typeAll(late, "m60;");
         t.due("month 999", late.fault(0), NOT_FOUND);
@@ -252,7 +238,7 @@ public final class TextBoundaries extends EstateTests {
     }
 
     /** A call of each kind in an estate in which it is possible: the first ones are changes. */
-    private static int answer(WineFutures x, int call) {
+    private static int answer(LongEstate x, int call) {
         switch (call) {
             case 0: return x.lot(1, 0);
             case 1: return x.buyer();
@@ -283,8 +269,8 @@ public final class TextBoundaries extends EstateTests {
     }
 
     /** Lot 0 is open, can be topped up and has 64 cases; lot 1 is bottled; the history is empty. */
-    private static WineFutures middleOfAll(int sold) {
-        WineFutures x = estate(3, 50, 2);
+    private static LongEstate middleOfAll(int sold) {
+        LongEstate x = estate(3, 50, 2);
         x.lot(1, 0);
         x.sell(1, 0, 5, 1);
         x.bottle(1);
@@ -295,7 +281,7 @@ public final class TextBoundaries extends EstateTests {
     }
 
     /** Changes that alter nothing drop the states ahead of them, and are undone. */
-    private static void forget(WineFutures x) {
+    private static void forget(LongEstate x) {
         for (int i = 0; i < 4; i++) {
             x.set(0, x.count(20));
         }
@@ -305,14 +291,14 @@ public final class TextBoundaries extends EstateTests {
     }
 
     private static void whatIsAChange(Checks t) {
-        WineFutures all = middleOfAll(10);
+        LongEstate all = middleOfAll(10);
         for (int call = 0; call <= 10; call++) {
-            WineFutures x = middleOfAll(10);
+            LongEstate x = middleOfAll(10);
             t.due("no state ahead of change " + call, x.count(10), 0);
             t.that("change " + call + " is possible", answer(x, call) >= 0);
             t.due("a state behind change " + call, x.count(10), 1);
         }
-        WineFutures x = middleOfAll(67);
+        LongEstate x = middleOfAll(67);
         x.pass(1);
         for (int call = 11; call <= 23; call++) {
             t.that("call " + call + " is possible", answer(x, call) >= 0);
@@ -322,14 +308,14 @@ public final class TextBoundaries extends EstateTests {
         t.due("it is no change", x.count(10), 0);
         t.due("a change that alters nothing", x.set(0, x.count(20)), 0);
         t.due("is one", x.count(10), 1);
-        WineFutures empty = new WineFutures();
+        LongEstate empty = new LongEstate();
         t.due("play() of no order", empty.play(), 0);
         t.due("is a change", empty.count(10), 1);
         t.due("the change of another object is not", all.count(10), 0);
     }
 
     private static void fourStates(Checks t) {
-        WineFutures x = new WineFutures();
+        LongEstate x = new LongEstate();
         t.due("none at first", x.count(10), 0);
         refused(t, x, "undo() of none", NOT_POSSIBLE, () -> x.undo());
         for (int change = 1; change <= 7; change++) {
@@ -361,7 +347,7 @@ public final class TextBoundaries extends EstateTests {
 
     private static void everythingButTheText(Checks t) {
         for (int call = 0; call <= 10; call++) {
-            WineFutures x = middleOfAll(10);
+            LongEstate x = middleOfAll(10);
             x.set(0, 3);
             Checks.typeAll(x, call == 10 ? "l1,1;t0,9;m1;s0,1,2,8;b0;" : "");
             String before = Checks.snapshot(x);
@@ -373,7 +359,7 @@ public final class TextBoundaries extends EstateTests {
             t.due("the text is not", x.count(11), 2);
             t.dueRow("nor its characters", faultRow(x), 0, 1, 2);
         }
-        WineFutures x = new WineFutures();
+        LongEstate x = new LongEstate();
         Checks.typeAll(x, "m1;");
         x.pass(1);
         x.clearText();
@@ -382,7 +368,7 @@ public final class TextBoundaries extends EstateTests {
     }
 
     private static void severalErrors(Checks t) {
-        WineFutures x = middleOfAll(67);
+        LongEstate x = middleOfAll(67);
         for (int i = 2; i < 6; i++) {
             x.lot(1, 0);
             x.buyer();
@@ -414,7 +400,7 @@ public final class TextBoundaries extends EstateTests {
         refused(t, x, "barrel: below 0, bottled", INVALID, () -> x.barrel(1, -1));
         refused(t, x, "barrel: no lot, not so many", INVALID, () -> x.barrel(6, 12));
         refused(t, x, "fault: what, no fault", INVALID, () -> x.fault(3));
-        WineFutures late = new WineFutures();
+        LongEstate late = new LongEstate();
         passMany(late, 999);
         refused(t, late, "pass: range, month", INVALID, () -> late.pass(61));
         refused(t, late, "pass: 0, month", INVALID, () -> late.pass(0));
@@ -428,7 +414,7 @@ public final class TextBoundaries extends EstateTests {
 
     /** Each kind of error in a row; then the states of the history must be those that they were. */
     private static void errorsChangeNothing(Checks t) {
-        WineFutures x = estate(3, 50, 6);
+        LongEstate x = estate(3, 50, 6);
         for (int i = 1; i < 6; i++) {
             x.lot(1, 0);
         }
@@ -469,7 +455,7 @@ public final class TextBoundaries extends EstateTests {
         refused(t, x, "undo() of none", NOT_POSSIBLE, () -> x.undo());
     }
 
-    private static int ofLot(WineFutures x, int call, int lot) {
+    private static int ofLot(LongEstate x, int call, int lot) {
         switch (call) {
             case 0: return x.taste(lot, 5);
             case 1: return x.top(lot);
@@ -488,7 +474,7 @@ public final class TextBoundaries extends EstateTests {
         }
     }
 
-    private static int ofBuyer(WineFutures x, int call, int buyer) {
+    private static int ofBuyer(LongEstate x, int call, int buyer) {
         switch (call) {
             case 0: return x.sell(0, buyer, 1, 1);
             case 1: return x.trade(0, buyer, 0, 1, 1);
@@ -501,9 +487,9 @@ public final class TextBoundaries extends EstateTests {
     }
 
     private static void noSuchNumber(Checks t) {
-        WineFutures none = new WineFutures();
-        WineFutures some = middleOfAll(10);
-        WineFutures undone = estate(1, 0, 2);
+        LongEstate none = new LongEstate();
+        LongEstate some = middleOfAll(10);
+        LongEstate undone = estate(1, 0, 2);
         undone.lot(1, 0);
         undone.undo();
         int[] numbers = {-1, 2, 5, 6, 7, MOST, LEAST};
