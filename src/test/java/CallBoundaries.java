@@ -610,6 +610,9 @@ public final class CallBoundaries extends EstateTests {
         t.due("90 behind 34 months", x.cases(0, 34), 1);
         t.due("82 behind 35 months", x.cases(0, 35), 0);
         t.due("behind 120 months", x.cases(0, 120), 0);
+        x.set(0, 100);
+        x.set(1, 36);
+        t.due("whatever the settings are", x.cases(0, 1), 23);
         LongEstate slow = estate(12, 1, 0);
         t.due("120 months of 2 each", slow.cases(0, 120), 12 * (2250 - 240) / 90);
         t.due("119 months of 2 each", slow.cases(0, 119), 12 * (2250 - 238) / 90);
@@ -662,6 +665,18 @@ public final class CallBoundaries extends EstateTests {
         LongEstate empty = aged(1, 48, 55);
         tasteOften(empty, 0, 2);
         t.due("no wine, no futures", empty.deadline(0), NOT_FOUND);
+        LongEstate without = estate(1, 48, 1);
+        without.sell(0, 0, 1, 9);
+        without.pass(55);
+        tasteOften(without, 0, 2);
+        t.due("no wine, but futures", without.deadline(0), 0);
+        LongEstate first = new LongEstate();
+        first.lot(2, 40);
+        first.buyer();
+        first.sell(0, 0, 20, 3);
+        t.due("20 cases behind 14 months", first.cases(0, 14), 20);
+        t.due("18 cases behind 15 months", first.cases(0, 15), 18);
+        t.due("cases, not the expected ones", first.deadline(0), 15);
     }
 
     private static void toppingReturns(Checks t) {
@@ -673,6 +688,9 @@ public final class CallBoundaries extends EstateTests {
         t.dueRow("nothing is done", barrels(x, 0), 1570, 1570, 1570);
         x.set(1, 36);
         t.due("no more behind 36 months", x.topping(0), 0);
+        x.set(1, 12);
+        x.set(0, 100);
+        t.due("cases, not the expected ones", x.topping(0), 4);
         x.top(0);
         t.due("topped up", x.topping(0), NOT_POSSIBLE);
         LongEstate below = estate(2, 50, 0);
@@ -713,6 +731,19 @@ public final class CallBoundaries extends EstateTests {
         most.bottle(0);
         t.due("bottled", most.loser(0, 0), NOT_POSSIBLE);
         t.due("bottled, how many", most.loser(0, 1), NOT_POSSIBLE);
+        LongEstate enough = estate(1, 50, 1);
+        enough.sell(0, 0, 25, 1);
+        enough.set(0, 100);
+        enough.set(1, 36);
+        t.due("cases now, not the expected ones", enough.loser(0, 0), NOT_FOUND);
+        t.due("none is cut", enough.bottle(0), 0);
+        LongEstate without = estate(1, 48, 2);
+        without.sell(0, 1, 1, 9);
+        without.pass(55);
+        tasteOften(without, 0, 2);
+        t.due("no wine: the buyer", without.loser(0, 0), 1);
+        t.due("no wine: how many", without.loser(0, 1), 1);
+        t.due("no wine: cut", without.bottle(0), 1);
     }
 
     private static void countReturns(Checks t) {
@@ -831,6 +862,26 @@ public final class CallBoundaries extends EstateTests {
         t.due("and again", x.play(), 4);
         t.due("three lots", x.count(0), 3);
         t.due("month then", x.count(2), 12);
+        asTheCalls(t);
+    }
+
+    private static void asTheCalls(Checks t) {
+        LongEstate played = withLoser();
+        Checks.typeAll(played, "l3,20;b0;t1,70;m9;s1,1,30,2;b1;");
+        LongEstate called = withLoser();
+        called.lot(3, 20);
+        called.bottle(0);
+        called.taste(1, 70);
+        called.pass(9);
+        called.sell(1, 1, 30, 2);
+        called.bottle(1);
+        String before = Checks.snapshot(played);
+        t.due("played", played.play(), 6);
+        t.that("as the calls do it", Checks.snapshot(called).equals(Checks.snapshot(played)));
+        t.due("cases of lot 0", played.lotOf(0, 3), 34);
+        t.due("cut", played.count(8), 2);
+        played.undo();
+        t.that("all are taken back", before.equals(Checks.snapshot(played)));
     }
 
     private static void playReturns(Checks t) {

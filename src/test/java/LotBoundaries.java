@@ -327,6 +327,9 @@ public final class LotBoundaries extends EstateTests {
         mean.taste(0, 10);
         t.due("a mean of 9.5 counts as 9", mean.taste(0, 9), 10);
         t.due("a mean of 10 again", mean.taste(0, 11), 11);
+        LongEstate rounded = estate(1, 0, 0);
+        rounded.taste(0, 14);
+        t.due("14.5 counts as 14, whose square is 196", rounded.taste(0, 15), 11);
         mean.bottle(0);
         t.due("it stays when the lot is bottled", mean.lotOf(0, 6), 11);
     }

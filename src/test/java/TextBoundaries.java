@@ -365,6 +365,31 @@ public final class TextBoundaries extends EstateTests {
         x.clearText();
         x.undo();
         t.due("the text stays empty", x.count(11), 0);
+        settingsAndCuts(t);
+    }
+
+    private static void settingsAndCuts(Checks t) {
+        LongEstate x = new LongEstate();
+        x.set(0, 77);
+        x.set(1, 33);
+        t.dueRow("both settings", new int[] {x.count(20), x.count(21)}, 77, 33);
+        x.undo();
+        t.dueRow("setting 1 is taken back", new int[] {x.count(20), x.count(21)}, 77, 12);
+        x.undo();
+        t.dueRow("setting 0 is taken back", new int[] {x.count(20), x.count(21)}, 10, 12);
+        LongEstate more = middleOfAll(67);
+        String before = Checks.snapshot(more);
+        t.due("of 67 for 64 cases", more.bottle(0), 3);
+        t.due("cut so far", more.count(8), 3);
+        String after = Checks.snapshot(more);
+        more.redeem(0, 0, 60);
+        more.undo();
+        t.that("the delivery is taken back", after.equals(Checks.snapshot(more)));
+        more.undo();
+        t.due("none is cut", more.count(8), 0);
+        t.that("the cut is taken back", before.equals(Checks.snapshot(more)));
+        t.due("cut again", more.bottle(0), 3);
+        t.that("as before", after.equals(Checks.snapshot(more)));
     }
 
     private static void severalErrors(Checks t) {
