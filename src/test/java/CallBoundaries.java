@@ -563,6 +563,14 @@ public final class CallBoundaries extends EstateTests {
         t.due("299 by 299", one.holding(1, 0, 3), 0x3f800000);
         one.trade(0, 0, 1, 1, 0);
         t.due("299 by 300", one.holding(1, 0, 3), Float.floatToIntBits(299f / 300f));
+        for (int mean = 1; mean <= 512; mean += mean) {
+            LongEstate halves = estate(12, 0, 1);
+            halves.sell(0, 0, 1, mean);
+            for (int held = 1; held <= 256; held += held) {
+                t.due(mean + " by " + held, halves.holding(0, 0, 3), Float.floatToIntBits((float) mean / (float) held));
+                halves.sell(0, 0, held, 0);
+            }
+        }
     }
 
     private static void accountReturns(Checks t) {
